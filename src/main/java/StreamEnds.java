@@ -301,8 +301,7 @@ public final class StreamEnds {
         if (!network.wire.has(i) || j < 0) {
             return BAD;
         }
-        Segment segment = network.wire.at(i);
-        return j < segment.byteCount ? segment.bytes[j] : NONE;
+        return network.wire.at(i).byteAt(j);
     }
 
     public int cause(int i) {
@@ -550,6 +549,10 @@ public final class StreamEnds {
             }
         }
 
+        int byteAt(int j) {
+            return j >= 0 && j < byteCount && j < SEGMENT_SIZE ? bytes[j] : NONE;
+        }
+
         void addRange(int start, int stop) {
             if (rangeCount >= 0 && rangeCount < TOLD_RANGES) {
                 ranges[2 * rangeCount] = start;
@@ -616,13 +619,13 @@ public final class StreamEnds {
             sent = other.sent;
             lost = other.lost;
             resent = other.resent;
-            for (int i = 0; i < size; i++) {
+            for (int i = 0; i < size && i < WIRE_SIZE; i++) {
                 slots[i].copyFrom(other.slots[i]);
             }
         }
 
         boolean has(int i) {
-            return i >= 0 && i < size;
+            return i >= 0 && i < size && i < WIRE_SIZE;
         }
 
         Segment at(int i) {
@@ -630,7 +633,7 @@ public final class StreamEnds {
         }
 
         Segment draft() {
-            return slots[size];
+            return size >= 0 && size <= WIRE_SIZE ? slots[size] : removed;
         }
 
         void sendDraft() {
@@ -1002,7 +1005,7 @@ public final class StreamEnds {
             }
         }
 
-        /** Begins a segment; if it has ACK, with what an endpoint says of the peer's stream. */
+        /** Begins a segment; if it has ACK, with what the endpoint says of its peer's stream. */
         private Segment draft(int flags, int place) {
             Segment segment = wire.draft();
             segment.begin(index, flags, config.number(index, place));
@@ -1361,8 +1364,8 @@ public final class StreamEnds {
 
         private void keepBytes(Segment segment, int place) {
             Incoming in = end.in;
-            for (int k = 0; k < segment.byteCount && k < SEGMENT_SIZE; k++) {
-                in.hold(place + k, segment.bytes[k]);
+            for (int k = 0; k < segment.byteCount; k++) {
+                in.hold(place + k, segment.byteAt(k));
             }
             int after = place + segment.byteCount;
             if (segment.has(FIN) && in.hasRoomFor(after) && in.fin == NONE) {
