@@ -29,6 +29,8 @@ public final class EndsTest {
                 "end(0, 3) = 1; end(0, 4) = 0; end(0, 5) = 0; end(0, 6) = 1; end(0, 7) = 13; end(0, 8) = 6;",
                 "end(0, 9) = 0; end(0, 10) = 0; end(0, 14) = 0; sample(0, 0) = -4; end(0, 16) = -4;",
                 "end(1, 5) = 2; count(7) = 7; count(6) = 0;");
+        Check.run("open: nothing is released", OPEN, "leave(0) = 5; quit(0) = 5; end(0, 13) = 1; open(0, 1) = 3; end(0, 13) = 0;",
+                "say(0, 1) = 1;");
         Check.run("open: a SYN that finds the wire full is lost at once", "open(0, 1) = 1;", twice(19),
                 "open(1, 1) = 20; end(1, 2) = 1; end(1, 11) = 6; count(7) = 2; count(8) = 1; lose(0) = 19;",
                 "leave(1) = 0; open(1, 1) = 20; count(8) = 1; count(7) = 3;");

@@ -66,6 +66,9 @@ public final class LookTest {
                 "known(0, 5) = 0;");
         Check.run("known: opened again", OPEN, says(0, 1, 5), "arrive(1) = 1 x 2; known(0, 2) = 1; quit(0) = 4;",
                 "known(0, 2) = 1; open(0, 0) = 2; known(0, 2) = 0;");
+        Check.run("known: opened again, and bytes at the same positions", OPEN, says(0, 1, 5), "arrive(1) = 1 x 2; known(0, 2) = 1;",
+                "quit(0) = 4; quit(1) = 4; lose(0) = 2; lose(0) = 1; lose(0) = 0;", OPEN, says(0, 1, 5), "known(0, 2) = 0;",
+                "known(0, 5) = 0; span(1, -1, 0) = 0;");
     }
 
     private static void letter() {

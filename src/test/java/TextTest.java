@@ -95,6 +95,12 @@ public final class TextTest {
                 "twice(0) = 4; arrive(1) = 1; arrive(0) = 0; cause(0) = 6; count(10) = 1; count(9) = 2;",
                 "lay() = 4; count(11) = 7;");
         Check.play("as new after lay()", x, START);
+        Check.play("segments are lost at once", x, "open(0, 1) = 1;");
+        for (int k = 2; k <= 20; k++) {
+            x.twice(0);
+        }
+        Check.play("segments are lost at once", x, "open(1, 1) = 20; count(8) = 1; leave(0) = 0; lay() = 4;");
+        Check.play("as new after lay()", x, START);
         Check.play("as new after lay()", x, "end(0, 7) = 13; end(1, 7) = 13; count(2) = 0; count(3) = 0;");
     }
 

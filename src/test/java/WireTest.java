@@ -9,7 +9,9 @@ public final class WireTest {
         arriveNotFitting();
         arriveWithWrongAck();
         arriveWithoutAck();
+        arriveWithNegativeAck();
         arriveBytes();
+        arriveOldBytes();
         arriveFin();
         arriveReset();
         urgent();
@@ -25,6 +27,7 @@ public final class WireTest {
         drive();
         driveEvents();
         calm();
+        calmIsPlayed();
         Check.end("WireTest");
     }
 
@@ -126,6 +129,34 @@ public final class WireTest {
     private static void arriveWithoutAck() {
         StreamEnds x = new StreamEnds();
         Reference y = new Reference();
+        bringOver(x, y, 224);
+        Check.same("calls so far", calls <= 500 ? 1 : 0, 1);
+        int size = y.count(5);
+        both(x, y, "quit", 0);
+        both(x, y, "lose", size);
+        both(x, y, "open", 0, 1);
+        Check.play("arrive: without ACK", x, "end(1, 0) = 4; end(1, 7) = 257; end(1, 5) = 225; arrive(" + size + ") = 0;",
+                "cause(0) = 10; cause(1) = -4; count(5) = " + size + "; end(1, 0) = 4;");
+    }
+
+    /** An old ack number from so far ahead that it is interpreted below 1 in SYN_RECEIVED. */
+    private static void arriveWithNegativeAck() {
+        StreamEnds x = new StreamEnds();
+        Reference y = new Reference();
+        bringOver(x, y, 160);
+        for (int k = 0; k < 60 && y.count(5) > 0; k++) {
+            both(x, y, "arrive", 0);
+        }
+        both(x, y, "say", 0, 1);
+        both(x, y, "arrive", 0);
+        Check.play("arrive: SYN_RECEIVED, the ack number is below 1", x, "letter(0, 3) = 162; quit(0) = 4; quit(1) = 4;",
+                "lose(2) = 2; lose(1) = 1; open(0, 0) = 1; open(1, 1) = 2; arrive(1) = 1; end(0, 0) = 3; arrive(0) = 0;",
+                "cause(0) = 5; cause(1) = -4; count(5) = 2; letter(1, 1) = 8; letter(1, 2) = 162; letter(1, 0) = 0;");
+    }
+
+    /** Endpoint 0 says so many bytes, and endpoint 1 takes all of them. */
+    private static void bringOver(StreamEnds x, Reference y, int bytes) {
+        calls = 0;
         for (char c : "p8;b32;".toCharArray()) {
             both(x, y, "write", c);
         }
@@ -135,7 +166,7 @@ public final class WireTest {
         for (int k = 0; k < 3; k++) {
             both(x, y, "arrive", 0);
         }
-        for (int said = 0; said < 224; said += 32) {
+        for (int said = 0; said < bytes; said += 32) {
             for (int k = 0; k < 32; k++) {
                 both(x, y, "say", 0, said + k);
             }
@@ -146,13 +177,6 @@ public final class WireTest {
                 both(x, y, "take", 1);
             }
         }
-        Check.same("calls so far", calls <= 500 ? 1 : 0, 1);
-        int size = y.count(5);
-        both(x, y, "quit", 0);
-        both(x, y, "lose", size);
-        both(x, y, "open", 0, 1);
-        Check.play("arrive: without ACK", x, "end(1, 0) = 4; end(1, 7) = 257; end(1, 5) = 225; arrive(" + size + ") = 0;",
-                "cause(0) = 10; cause(1) = -4; count(5) = " + size + "; end(1, 0) = 4;");
     }
 
     private static int calls = 0;
@@ -191,6 +215,21 @@ public final class WireTest {
                 "letter(4, 6) = 1; letter(4, 10) = -4; letter(4, 9) = 3;");
     }
 
+    /** Bytes of a connection before, which are held in the new one at their positions. */
+    private static void arriveOldBytes() {
+        String old = "quit(0) = 4; quit(1) = 4; lose(3) = 3; lose(2) = 2; lose(0) = 1; open(1, 0) = 1; open(0, 1) = 2;"
+                + "arrive(1) = 1 x 3; arrive(0) = 1; span(1, 0, 0) = 2; span(1, 0, 1) = 6; count(5) = 1;";
+        Check.run("arrive: bytes that are held already stay", OPEN, says(0, 1, 5), old, "say(0, 11) = 1; say(0, 12) = 2;",
+                "say(0, 13) = 3; say(0, 14) = 4; say(0, 15) = 5; count(5) = 3; byteOf(2, 0) = 12; arrive(2) = 1; arrive(1) = 1;",
+                "end(1, 5) = 6; take(1) = 11; take(1) = 2; take(1) = 3; take(1) = 4; take(1) = 5; take(1) = -4;");
+        Check.run("arrive: held bytes at the position of FIN", OPEN, says(0, 1, 5), old, "say(0, 11) = 1; leave(0) = 5;",
+                "letter(2, 2) = 252; arrive(2) = 1; end(1, 17) = 2; arrive(1) = 1; end(1, 5) = 6; end(1, 0) = 4; calm(4) = 1;",
+                "take(1) = 11; take(1) = -4; end(1, 6) = 2;");
+        Check.run("arrive: FIN is noted before the bytes come", OPEN, says(0, 1, 4), "leave(0) = 5; count(5) = 2;",
+                "arrive(1) = 1; end(1, 17) = 5; lose(0) = 1; arrive(0) = 1; pass(3) = 3; arrive(0) = 1; end(1, 17) = 5;",
+                "end(1, 0) = 7; end(1, 5) = 6; take(1) = 1; take(1) = 2;");
+    }
+
     private static void arriveFin() {
         Check.run("arrive: FIN before the bytes", OPEN, says(0, 1, 3), "leave(0) = 5; arrive(1) = 1; end(1, 17) = 4;",
                 "end(1, 0) = 4; end(1, 5) = 1; span(1, 0, 1) = 4; arrive(0) = 1; end(1, 5) = 5; end(1, 0) = 7;",
@@ -211,6 +250,11 @@ public final class WireTest {
     private static void arriveReset() {
         Check.run("arrive: an RST that fits", OPEN, "quit(1) = 4; say(0, 1) = 1; arrive(0) = 1; end(0, 0) = 0; end(0, 11) = 0;",
                 "end(0, 4) = 1; end(0, 16) = 1; cause(0) = -4;");
+        // The number 0 of an RST with ACK, as far from expected as can be, is interpreted below it.
+        Check.runWith("f0,127;", "arrive: 128 before expected", "open(0, 1) = 1; twice(0) = 2; arrive(0) = 0; open(1, 0) = 2;",
+                "arrive(0) = 1; arrive(1) = 1; end(0, 5) = 1; arrive(0) = 0; cause(0) = 6; cause(1) = 9; count(5) = 1;");
+        Check.runWith("f0,128;", "arrive: 127 after expected", "open(0, 1) = 1; twice(0) = 2; arrive(0) = 0; open(1, 0) = 2;",
+                "arrive(0) = 1; arrive(1) = 1; end(0, 5) = 1; arrive(0) = 0; cause(0) = 6; cause(1) = 8; count(5) = 1;");
         Check.run("arrive: an old RST before the window", OPEN, "quit(1) = 4; open(1, 0) = 1; quit(0) = 4; lose(1) = 1;",
                 "open(0, 1) = 2; arrive(1) = 1 x 3; say(1, 1) = 1; arrive(1) = 1; end(0, 5) = 2; count(5) = 2;",
                 "arrive(0) = 0; cause(0) = 6; cause(1) = 9; count(5) = 1; end(0, 0) = 4;");
@@ -226,6 +270,8 @@ public final class WireTest {
         Check.run("an old ACK only moves the edge", OPEN, "say(0, 1) = 1; arrive(0) = 1; say(0, 2) = 2; arrive(0) = 1;",
                 "end(0, 1) = 2; end(0, 3) = 13; end(0, 11) = 3; arrive(0) = 1; take(1) = 1; take(1) = 2; end(1, 7) = 13;",
                 "pass(1) = 1; arrive(0) = 1; end(0, 1) = 3; end(0, 11) = 0; end(0, 3) = 13;");
+        Check.run("an ACK of the same position does not touch the timer", OPEN, "say(0, 1) = 1; pass(1) = 1; end(0, 11) = 2;",
+                "say(1, 9) = 1; letter(1, 3) = 251; arrive(1) = 1; end(0, 1) = 1; end(0, 11) = 2; end(0, 16) = 1;");
         Check.run("marked positions are forgotten below acked", OPEN, says(0, 1, 9), "arrive(2) = 1; arrive(2) = 1;",
                 "known(0, 5) = 0; known(0, 6) = 1; known(0, 9) = 1; known(0, 10) = 0; arrive(0) = 1 x 4; end(0, 1) = 10;",
                 "known(0, 6) = 0; known(0, 9) = 0;");
@@ -241,6 +287,10 @@ public final class WireTest {
                 "say(0, 5) = 1; pass(1) = 11; arrive(0) = 1 x 2; sample(0, 5) = 1; say(0, 6) = 1; pass(4) = 15; arrive(0) = 1 x 2;",
                 "sample(0, 0) = 4; sample(0, 1) = 1; sample(0, 2) = 1; sample(0, 3) = 5; sample(0, 4) = 3; sample(0, 5) = 2;",
                 "sample(0, 6) = -4; sample(1, 0) = 1; sample(1, 1) = -4;");
+        Check.runWith("p1;b20;", "acked reaches the timed position, but is not greater", OPEN, "say(0, 1) = 1; say(0, 2) = 2;",
+                "arrive(0) = 1; arrive(1) = 1; end(0, 16) = -4; sample(0, 1) = 1; say(0, 3) = 2; end(0, 16) = 3; arrive(0) = 1;",
+                "arrive(1) = 1; end(0, 1) = 3; end(0, 16) = 3; sample(0, 2) = -4; pass(1) = 1; arrive(0) = 1 x 2;",
+                "end(0, 16) = -4; sample(0, 0) = 1; sample(0, 2) = 1; end(0, 1) = 4;");
         Check.run("only one position is timed", OPEN, says(0, 1, 5), "end(0, 16) = 1; pass(1) = 1; arrive(0) = 1; arrive(1) = 1;",
                 "end(0, 16) = -4; sample(0, 0) = 1; arrive(0) = 1 x 2; end(0, 1) = 6; sample(0, 1) = 1; sample(0, 2) = -4;");
         Check.run("a retransmission ends the timing", OPEN, "say(0, 1) = 1; end(0, 16) = 1; pass(3) = 3; end(0, 16) = -4;",
@@ -263,10 +313,10 @@ public final class WireTest {
         Check.run("twice", "twice(0) = -1; twice(-1) = -1; open(0, 1) = 1; twice(1) = -1; twice(0) = 2; count(7) = 1;",
                 "open(1, 1) = 3; twice(0) = 4; letter(3, 0) = 0; letter(3, 2) = 250; twice(2) = 5; letter(4, 0) = 1;",
                 "letter(4, 2) = 100; count(7) = 2; count(5) = 5;");
-        Check.run("twice: a copy with all that the segment has", OPEN, says(0, 1, 5), "cry(0) = 6; lose(0) = 1; pass(3) = 3;",
+        Check.run("twice: a copy with all that the segment has", OPEN, says(0, 1, 6), "cry(0) = 7; lose(0) = 1; pass(3) = 3;",
                 "arrive(0) = 1; twice(1) = 3; letter(2, 0) = 1; letter(2, 6) = 1; letter(2, 8) = 252; letter(2, 9) = 0;",
-                "letter(2, 4) = 12; twice(0) = 4; letter(3, 7) = 0; byteOf(3, 0) = 1; letter(3, 5) = 4; lose(0) = 3;",
-                "letter(2, 7) = 0; byteOf(2, 0) = 1; letter(0, 6) = 1; letter(1, 9) = 0; lose(0) = 2; letter(0, 9) = 0;");
+                "letter(2, 4) = 12; twice(0) = 4; letter(3, 7) = 1; byteOf(3, 0) = 1; letter(3, 5) = 4; lose(0) = 3;",
+                "letter(2, 7) = 1; byteOf(2, 0) = 1; letter(0, 6) = 1; letter(1, 9) = 0; lose(0) = 2; letter(0, 9) = 0;");
         StreamEnds x = new StreamEnds();
         x.open(0, 1);
         for (int k = 2; k <= 20; k++) {
@@ -329,6 +379,8 @@ public final class WireTest {
                 "take(1) = 1; take(1) = 2; take(1) = 3; take(1) = 4; end(1, 7) = 13; count(5) = 3; arrive(0) = 0;",
                 "cause(1) = 9; count(5) = 3; arrive(1) = 1; end(0, 3) = 13; end(0, 2) = 13; end(0, 4) = 4; end(0, 16) = 12;",
                 "end(0, 11) = 12; count(5) = 3; letter(2, 5) = 4; letter(2, 2) = 9;");
+        Check.runWith("p1;b2;", "stalled: one unsent byte is enough", OPEN, says(0, 1, 3), "arrive(0) = 1 x 4; end(0, 1) = 3;",
+                "end(0, 2) = 3; end(0, 3) = 3; end(0, 11) = 3; pass(3) = 3; letter(0, 2) = 2; letter(0, 5) = 0;");
         Check.runWith("p4;b8;", "stalled: FIN waits at the edge", OPEN, says(0, 1, 8), "leave(0) = 4; arrive(0) = 1 x 6;",
                 "end(0, 1) = 9; end(0, 2) = 9; end(0, 4) = 0; end(0, 11) = 3; pass(3) = 3; letter(0, 2) = 8; letter(0, 1) = 4;",
                 "end(0, 0) = 4; end(0, 2) = 9;");
@@ -397,5 +449,48 @@ public final class WireTest {
                 "count(6) = 0; count(5) = 2;");
         Check.run("calm: the causes stay", OPEN, "say(0, 1) = 1; twice(0) = 2; arrive(0) = 1; arrive(0) = 0; cause(1) = 9;",
                 "calm(0) = 1; cause(0) = 6; cause(1) = 9; count(10) = 1; twice(0) = 3; calm(5) = 0; count(10) = 1;");
+    }
+
+    /** What calm() tells is what the calls for it then bring about. */
+    private static void calmIsPlayed() {
+        String[][] states = {
+            {OPEN, says(0, 1, 20), "say(1, 5) = 1; cry(0) = 21; lose(0) = 3; arrive(0) = 1; pass(2) = 2; leave(0) = 4;"},
+            {OPEN, says(0, 1, 9), "arrive(2) = 1 x 2; known(0, 6) = 1; pass(1) = 1; lose(0) = 1; say(1, 3) = 1; leave(1) = 5;"},
+            {OPEN, says(1, 1, 3), "leave(1) = 5; arrive(1) = 1; end(0, 17) = 4; lose(0) = 1; pass(1) = 1; leave(0) = 5;"},
+            {OPEN, "leave(0) = 5; arrive(0) = 1 x 2; leave(1) = 9; pass(1) = 1; arrive(0) = 1; lose(0) = 0; pass(2) = 3;"},
+            {OPEN, "say(0, 1) = 1; pass(2) = 2; arrive(0) = 1 x 2; say(0, 2) = 1; pass(3) = 5; say(1, 8) = 1; lose(0) = 1;"},
+            {"open(0, 1) = 1; open(1, 1) = 2;", says(0, 1, 7), "pass(5) = 5; twice(1) = 3; leave(1) = 0; open(1, 1) = 4;"},
+        };
+        for (int state = 0; state < states.length; state++) {
+            StreamEnds x = new StreamEnds();
+            Check.play("calm is played, state " + state, x, states[state]);
+            int[] told = new int[6];
+            for (int what = 0; what <= 5; what++) {
+                told[what] = x.calm(what);
+            }
+            int sent = x.count(7);
+            int ticks = 0;
+            while (ticks < 300 && (x.count(5) > 0 || x.end(0, 11) + x.end(1, 11) > 0 || x.end(0, 0) == 10 || x.end(1, 0) == 10)) {
+                for (int k = x.count(5); k > 0; k--) {
+                    x.arrive(0);
+                }
+                x.pass(1);
+                ticks++;
+            }
+            int[] due = {ticks, x.end(0, 0), x.end(1, 0), 0, 0, x.count(7) - sent};
+            due[3] = takable(x, 0);
+            due[4] = takable(x, 1);
+            for (int what = 0; what <= 5; what++) {
+                Check.same("calm(" + what + ") in state " + state, told[what], due[what]);
+            }
+        }
+    }
+
+    private static int takable(StreamEnds x, int e) {
+        int n = 0;
+        while (x.take(e) != StreamEnds.NONE) {
+            n++;
+        }
+        return n;
     }
 }
