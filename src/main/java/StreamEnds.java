@@ -269,16 +269,14 @@ public final class StreamEnds {
         }
         Incoming in = network.endpoint(e).in;
         int ranges = 0;
-        int stop = in.expected + 1;
-        while (stop < in.limit) {
-            int start = in.nextHeld(stop);
-            stop = in.nextGap(start);
-            if (start < stop) {
-                if (ranges == i) {
-                    return what == 0 ? start : stop;
-                }
-                ranges++;
+        int start = in.nextHeld(in.expected + 1);
+        while (start < in.limit && ranges < RING) {
+            int stop = in.nextGap(start);
+            if (ranges == i) {
+                return what == 0 ? start : stop;
             }
+            ranges++;
+            start = in.nextHeld(stop);
         }
         return i == -1 ? ranges : NONE;
     }
