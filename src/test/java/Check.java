@@ -49,6 +49,15 @@ final class Check {
         }
     }
 
+    /** An endpoint says the bytes from, from + 1, .. to, each of which is one more pending byte. */
+    static String says(int e, int from, int to) {
+        StringBuilder calls = new StringBuilder();
+        for (int k = from; k <= to; k++) {
+            calls.append("say(").append(e).append(", ").append(k).append(") = ").append(k).append("; ");
+        }
+        return calls.toString();
+    }
+
     private static void playOne(String title, StreamEnds x, String part) {
         String[] sides = part.split("=");
         String call = sides[0].trim();

@@ -45,14 +45,6 @@ public final class EndsTest {
         return calls.toString();
     }
 
-    private static String says(int e, int from, int to) {
-        StringBuilder calls = new StringBuilder();
-        for (int k = from; k <= to; k++) {
-            calls.append("say(").append(e).append(", ").append(k).append(") = ").append(k).append("; ");
-        }
-        return calls.toString();
-    }
-
     private static void say() {
         Check.run("say: wrong arguments", OPEN, "say(-1, 1) = -1; say(2, 1) = -1; say(0, -1) = -1; say(0, 256) = -1;",
                 "end(0, 4) = 0; count(5) = 0; say(0, 255) = 1; byteOf(0, 0) = 255; say(1, 0) = 1; byteOf(1, 0) = 0;");
@@ -63,12 +55,12 @@ public final class EndsTest {
                 "letter(1, 3) = 251; arrive(1) = 1; known(0, 1) = 0; known(0, 2) = 1; known(0, 5) = 1; known(0, 6) = 0;",
                 "count(5) = 1; arrive(0) = 1; letter(0, 3) = 0; arrive(0) = 1; count(5) = 1; letter(0, 5) = 1;",
                 "letter(0, 2) = 0; byteOf(0, 0) = 6; end(0, 4) = 1;");
-        Check.run("say: the edge ends it", OPEN, says(0, 1, 14), "count(5) = 3; end(0, 2) = 10; end(0, 3) = 13;",
+        Check.run("say: the edge ends it", OPEN, Check.says(0, 1, 14), "count(5) = 3; end(0, 2) = 10; end(0, 3) = 13;",
                 "end(0, 4) = 14; lose(0) = 2;");
-        Check.run("say: FULL", OPEN, says(0, 1, 32), "say(0, 33) = -3; say(0, 256) = -1; say(2, 3) = -1;",
+        Check.run("say: FULL", OPEN, Check.says(0, 1, 32), "say(0, 33) = -3; say(0, 256) = -1; say(2, 3) = -1;",
                 "end(0, 4) = 32; arrive(0) = 1; arrive(2) = 1; end(0, 4) = 31; say(0, 33) = 32; say(0, 34) = -3;");
-        Check.run("say: NO rather than FULL", OPEN, says(0, 1, 32), "leave(0) = 4; say(0, 33) = -2; say(0, 300) = -1;");
-        Check.runWith("p1;b2;f0,0;", "say: NO rather than FULL, BAD rather than NO", "open(0, 1) = 1;", says(0, 1, 32),
+        Check.run("say: NO rather than FULL", OPEN, Check.says(0, 1, 32), "leave(0) = 4; say(0, 33) = -2; say(0, 300) = -1;");
+        Check.runWith("p1;b2;f0,0;", "say: NO rather than FULL, BAD rather than NO", "open(0, 1) = 1;", Check.says(0, 1, 32),
                 "say(0, 1) = -3; quit(0) = 2; say(0, 1) = -2; say(0, 256) = -1; end(0, 4) = 32;");
     }
 
@@ -81,7 +73,7 @@ public final class EndsTest {
         Check.run("say: after a release", OPEN, "leave(0) = 5; say(0, 1) = -2; arrive(0) = 1; say(1, 1) = 1;",
                 "arrive(0) = 1; end(0, 0) = 6; say(0, 1) = -2; arrive(0) = 1; take(0) = 1; leave(1) = 9;",
                 "say(1, 1) = -2; end(1, 4) = 1; arrive(0) = 1; arrive(0) = 1; say(0, 1) = -2;");
-        Check.run("say: releasing, but FIN is not sent yet", OPEN, says(0, 1, 20), "leave(0) = 4; say(0, 1) = -2;",
+        Check.run("say: releasing, but FIN is not sent yet", OPEN, Check.says(0, 1, 20), "leave(0) = 4; say(0, 1) = -2;",
                 "end(0, 13) = 1; end(0, 4) = 20; count(5) = 3;");
     }
 
@@ -112,11 +104,11 @@ public final class EndsTest {
                 "end(0, 17) = 1; end(0, 5) = 2; leave(0) = 9; leave(0) = -2; letter(1, 1) = 6; letter(1, 3) = 102;");
         Check.run("leave: the last bytes take FIN along", OPEN, "say(0, 1) = 1; say(0, 2) = 2; say(0, 3) = 3;",
                 "leave(0) = 5; count(5) = 2; letter(1, 5) = 2; letter(1, 1) = 6; end(0, 2) = 5;");
-        Check.runWith("p4;b8;", "leave: FIN waits for the edge", OPEN, says(0, 1, 8),
+        Check.runWith("p4;b8;", "leave: FIN waits for the edge", OPEN, Check.says(0, 1, 8),
                 "count(5) = 2; end(0, 3) = 9; end(0, 2) = 6; leave(0) = 4; end(0, 2) = 9; end(0, 0) = 4; count(5) = 3;",
                 "letter(2, 1) = 4; arrive(0) = 1 x 6; end(0, 0) = 4; end(0, 11) = 3; take(1) = 1; take(1) = 2; take(1) = 3;",
                 "count(5) = 0; take(1) = 4; count(5) = 1; arrive(0) = 1; end(0, 0) = 5; letter(0, 1) = 6;");
-        Check.runWith("p4;b8;", "leave: the bytes and FIN just fit", OPEN, says(0, 1, 7), "leave(0) = 5;",
+        Check.runWith("p4;b8;", "leave: the bytes and FIN just fit", OPEN, Check.says(0, 1, 7), "leave(0) = 5;",
                 "count(5) = 3; letter(2, 5) = 2; letter(2, 1) = 6; end(0, 2) = 9; end(0, 16) = 1;");
         Check.run("leave: both at once", OPEN, "leave(0) = 5; leave(1) = 5; arrive(0) = 1; arrive(0) = 1; end(0, 0) = 8;",
                 "end(1, 0) = 8; leave(0) = -2; arrive(0) = 1; arrive(0) = 1; end(0, 0) = 10; end(1, 0) = 10;",
@@ -146,22 +138,22 @@ public final class EndsTest {
         Check.run("take: in order, not the FIN", OPEN, "say(0, 10) = 1; arrive(0) = 1 x 2; say(0, 11) = 1; leave(0) = 5;",
                 "count(5) = 2; arrive(0) = 1; take(1) = 10; end(1, 6) = 2; take(1) = 11; end(1, 17) = -4; arrive(0) = 1;",
                 "end(1, 17) = 3; end(1, 5) = 4; take(1) = -4; take(1) = -4; end(1, 6) = 3; take(0) = -4;");
-        Check.run("take: not before a gap is closed", OPEN, says(0, 1, 5), "arrive(1) = 1; take(1) = -4; arrive(0) = 1;",
+        Check.run("take: not before a gap is closed", OPEN, Check.says(0, 1, 5), "arrive(1) = 1; take(1) = -4; arrive(0) = 1;",
                 "take(1) = 1; take(1) = 2; take(1) = 3; take(1) = 4; take(1) = 5; take(1) = -4;");
         Check.run("take: also when CLOSED", OPEN, "say(0, 1) = 1; arrive(0) = 1; quit(1) = 4; take(1) = 1; take(1) = -4;");
     }
 
     private static void takeWidens() {
-        Check.run("take: the limit increases by a segment size", OPEN, says(0, 1, 12), "arrive(0) = 1 x 3;",
+        Check.run("take: the limit increases by a segment size", OPEN, Check.says(0, 1, 12), "arrive(0) = 1 x 3;",
                 "end(1, 7) = 13; end(1, 5) = 10; arrive(0) = 1 x 3; count(5) = 1; arrive(0) = 1; end(1, 5) = 13;",
                 "count(5) = 1; arrive(0) = 1; end(0, 3) = 13; take(1) = 1; take(1) = 2; take(1) = 3; end(1, 7) = 13;",
                 "count(5) = 0; take(1) = 4; end(1, 7) = 17; count(5) = 1; letter(0, 1) = 4; letter(0, 4) = 4;",
                 "letter(0, 2) = 101; letter(0, 3) = 7; take(1) = 5; take(1) = 6; take(1) = 7; end(1, 7) = 17;",
                 "take(1) = 8; end(1, 7) = 21; count(5) = 1;");
-        Check.runWith("p4;b16;", "take: the window was a segment size, so nothing is sent", OPEN, says(0, 1, 5),
+        Check.runWith("p4;b16;", "take: the window was a segment size, so nothing is sent", OPEN, Check.says(0, 1, 5),
                 "arrive(0) = 1 x 2; count(5) = 2; take(1) = 1; take(1) = 2; take(1) = 3; end(1, 7) = 17;",
                 "take(1) = 4; end(1, 7) = 21; count(5) = 2; take(1) = 5; take(1) = -4; end(1, 7) = 21;");
-        Check.runWith("p3;b6;", "take: the window was less than a segment size", OPEN, says(0, 1, 6),
+        Check.runWith("p3;b6;", "take: the window was less than a segment size", OPEN, Check.says(0, 1, 6),
                 "arrive(0) = 1 x 4; end(1, 5) = 5; count(5) = 1; take(1) = 1; take(1) = 2; end(1, 7) = 7;",
                 "take(1) = 3; end(1, 7) = 10; count(5) = 2; letter(1, 3) = 5; letter(1, 4) = 5;");
         Check.runWith("p1;b2;", "take: a gain of one is enough", OPEN, "say(0, 1) = 1; say(0, 2) = 2; arrive(0) = 1 x 2;",

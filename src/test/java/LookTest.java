@@ -14,18 +14,10 @@ public final class LookTest {
         Check.end("LookTest");
     }
 
-    private static String says(int e, int from, int to) {
-        StringBuilder calls = new StringBuilder();
-        for (int k = from; k <= to; k++) {
-            calls.append("say(").append(e).append(", ").append(k).append(") = ").append(k).append("; ");
-        }
-        return calls.toString();
-    }
-
     private static void end() {
         Check.run("end: wrong arguments", "end(-1, 0) = -1; end(2, 0) = -1; end(0, -1) = -1; end(0, 18) = -1;",
                 "end(1, 18) = -1; end(1, 17) = -4; end(1, 16) = -4;");
-        Check.run("end: every value", OPEN, says(0, 1, 7), "cry(0) = 8; pass(2) = 2; arrive(0) = 1 x 2; leave(1) = 5;",
+        Check.run("end: every value", OPEN, Check.says(0, 1, 7), "cry(0) = 8; pass(2) = 2; arrive(0) = 1 x 2; leave(1) = 5;",
                 "arrive(2) = 1; count(5) = 4; leave(0) = 9;",
                 "end(0, 0) = 9; end(0, 1) = 6; end(0, 2) = 9; end(0, 3) = 13; end(0, 4) = 2; end(0, 5) = 2; end(0, 6) = 1;",
                 "end(0, 7) = 13; end(0, 8) = 4; end(0, 9) = 9; end(0, 10) = 3; end(0, 11) = 4; end(0, 12) = 0;",
@@ -51,7 +43,7 @@ public final class LookTest {
         Check.run("span: wrong arguments", "span(-1, 0, 0) = -1; span(2, 0, 0) = -1; span(0, -2, 0) = -1;",
                 "span(0, 0, -1) = -1; span(0, 0, 2) = -1; span(0, -1, 2) = -1; span(0, -1, 0) = 0; span(0, -1, 1) = 0;",
                 "span(0, 0, 0) = -4; span(0, 1000, 1) = -4;");
-        Check.runWith("p1;b20;f0,0;", "span: in ascending order", OPEN, says(0, 1, 12), "arrive(9) = 1; arrive(3) = 1;",
+        Check.runWith("p1;b20;f0,0;", "span: in ascending order", OPEN, Check.says(0, 1, 12), "arrive(9) = 1; arrive(3) = 1;",
                 "arrive(1) = 1; arrive(2) = 1; span(1, -1, 0) = 3; span(1, -1, 1) = 3; span(1, 0, 0) = 2; span(1, 0, 1) = 3;",
                 "span(1, 1, 0) = 4; span(1, 1, 1) = 6; span(1, 2, 0) = 10; span(1, 2, 1) = 11; span(1, 3, 0) = -4;",
                 "span(0, -1, 0) = 0; arrive(0) = 1; span(1, -1, 0) = 2; span(1, 0, 0) = 4; end(1, 5) = 3; arrive(0) = 1;",
@@ -61,30 +53,30 @@ public final class LookTest {
 
     private static void known() {
         Check.run("known", "known(-1, 0) = -1; known(2, 0) = -1; known(0, -1) = -1; known(0, 0) = 0; known(0, 100000) = 0;",
-                OPEN, says(0, 1, 5), "arrive(1) = 1; arrive(1) = 1; known(0, 0) = 0; known(0, 1) = 0; known(0, 2) = 1;",
+                OPEN, Check.says(0, 1, 5), "arrive(1) = 1; arrive(1) = 1; known(0, 0) = 0; known(0, 1) = 0; known(0, 2) = 1;",
                 "known(0, 5) = 1; known(0, 6) = 0; known(0, 66) = 0; known(1, 2) = 0; arrive(0) = 1 x 2; known(0, 2) = 0;",
                 "known(0, 5) = 0;");
-        Check.run("known: opened again", OPEN, says(0, 1, 5), "arrive(1) = 1 x 2; known(0, 2) = 1; quit(0) = 4;",
+        Check.run("known: opened again", OPEN, Check.says(0, 1, 5), "arrive(1) = 1 x 2; known(0, 2) = 1; quit(0) = 4;",
                 "known(0, 2) = 1; open(0, 0) = 2; known(0, 2) = 0;");
-        Check.run("known: opened again, and bytes at the same positions", OPEN, says(0, 1, 5), "arrive(1) = 1 x 2; known(0, 2) = 1;",
-                "quit(0) = 4; quit(1) = 4; lose(0) = 2; lose(0) = 1; lose(0) = 0;", OPEN, says(0, 1, 5), "known(0, 2) = 0;",
+        Check.run("known: opened again, and bytes at the same positions", OPEN, Check.says(0, 1, 5), "arrive(1) = 1 x 2; known(0, 2) = 1;",
+                "quit(0) = 4; quit(1) = 4; lose(0) = 2; lose(0) = 1; lose(0) = 0;", OPEN, Check.says(0, 1, 5), "known(0, 2) = 0;",
                 "known(0, 5) = 0; span(1, -1, 0) = 0;");
     }
 
     private static void letter() {
         Check.run("letter: wrong arguments", "letter(0, 0) = -1; open(0, 1) = 1; letter(-1, 0) = -1; letter(1, 0) = -1;",
                 "letter(0, -1) = -1; letter(0, 12) = -1; letter(1, 12) = -1; letter(0, 11) = -4; letter(0, 0) = 0;");
-        Check.run("letter: a data segment", OPEN, says(0, 1, 6), "cry(0) = 7; lose(0) = 1; arrive(0) = 1; arrive(0) = 1;",
+        Check.run("letter: a data segment", OPEN, Check.says(0, 1, 6), "cry(0) = 7; lose(0) = 1; arrive(0) = 1; arrive(0) = 1;",
                 "say(0, 7) = 7; pass(3) = 3; letter(0, 0) = 0; letter(0, 1) = 4; letter(0, 2) = 251; letter(0, 3) = 101;",
                 "letter(0, 4) = 12; letter(0, 5) = 1; letter(0, 6) = 0; letter(0, 7) = 1; letter(0, 8) = -4; letter(0, 11) = -4;");
-        Check.run("letter: ranges", OPEN, says(0, 1, 5), "arrive(1) = 1; letter(1, 0) = 1; letter(1, 5) = 0; letter(1, 6) = 1;",
+        Check.run("letter: ranges", OPEN, Check.says(0, 1, 5), "arrive(1) = 1; letter(1, 0) = 1; letter(1, 5) = 0; letter(1, 6) = 1;",
                 "letter(1, 7) = -4; letter(1, 8) = 252; letter(1, 9) = 0; letter(1, 10) = -4; letter(1, 11) = -4;");
     }
 
     private static void byteOf() {
         Check.run("byteOf", "byteOf(0, 0) = -1; open(0, 1) = 1; byteOf(0, 0) = -4; byteOf(0, -1) = -1; byteOf(1, 0) = -1;",
                 "byteOf(-1, 0) = -1; byteOf(0, 1000) = -4; lose(0) = 0; byteOf(0, 0) = -1;");
-        Check.run("byteOf: every byte", OPEN, says(0, 1, 5), "byteOf(0, 0) = 1; byteOf(0, 1) = -4; byteOf(1, 0) = 2;",
+        Check.run("byteOf: every byte", OPEN, Check.says(0, 1, 5), "byteOf(0, 0) = 1; byteOf(0, 1) = -4; byteOf(1, 0) = 2;",
                 "byteOf(1, 1) = 3; byteOf(1, 2) = 4; byteOf(1, 3) = 5; byteOf(1, 4) = -4; byteOf(1, -1) = -1; byteOf(2, 0) = -1;");
     }
 

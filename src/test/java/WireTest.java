@@ -31,14 +31,6 @@ public final class WireTest {
         Check.end("WireTest");
     }
 
-    private static String says(int e, int from, int to) {
-        StringBuilder calls = new StringBuilder();
-        for (int k = from; k <= to; k++) {
-            calls.append("say(").append(e).append(", ").append(k).append(") = ").append(k).append("; ");
-        }
-        return calls.toString();
-    }
-
     private static void arriveClosed() {
         Check.run("arrive: there is no such segment", "arrive(0) = -1; arrive(-1) = -1; open(0, 1) = 1; arrive(1) = -1;",
                 "arrive(-1) = -1; arrive(20) = -1; count(5) = 1; cause(0) = -4; count(10) = 0;");
@@ -81,7 +73,7 @@ public final class WireTest {
                 "cause(0) = 2; cause(1) = -4; count(5) = 2; end(1, 0) = 2;");
         Check.run("arrive: SYN_SENT, an ACK without SYN", OPEN, "say(1, 1) = 1; quit(0) = 4; lose(1) = 1; open(0, 1) = 2;",
                 "arrive(0) = 0; cause(0) = 4; cause(1) = -4; count(5) = 1; end(0, 0) = 2; end(0, 5) = 0;");
-        Check.run("arrive: SYN_SENT, bytes that were written before", "open(0, 1) = 1; open(1, 0) = 1;", says(0, 1, 6),
+        Check.run("arrive: SYN_SENT, bytes that were written before", "open(0, 1) = 1; open(1, 0) = 1;", Check.says(0, 1, 6),
                 "leave(1) = 0; open(1, 0) = 1; arrive(0) = 1; arrive(0) = 1; count(5) = 2; letter(0, 5) = 0; letter(1, 5) = 4;",
                 "letter(1, 2) = 251; end(0, 2) = 5; end(0, 16) = 4; end(0, 11) = 3;");
     }
@@ -90,11 +82,11 @@ public final class WireTest {
         Check.run("arrive: before the window", OPEN, "say(0, 1) = 1; twice(0) = 2; arrive(0) = 1; arrive(0) = 0; cause(0) = 6;",
                 "cause(1) = 9; cause(2) = -4; count(5) = 2; letter(1, 1) = 4; letter(1, 3) = 252; count(10) = 1;",
                 "arrive(0) = 1; cause(0) = -4; cause(1) = -4;");
-        Check.runWith("p4;b8;", "arrive: no window, a probe", OPEN, says(0, 1, 12), "arrive(0) = 1 x 4; pass(3) = 3;",
+        Check.runWith("p4;b8;", "arrive: no window, a probe", OPEN, Check.says(0, 1, 12), "arrive(0) = 1 x 4; pass(3) = 3;",
                 "arrive(0) = 1 x 2; end(1, 5) = 9; end(1, 7) = 9; end(0, 1) = 9; end(0, 3) = 9; pass(3) = 6; count(5) = 1;",
                 "letter(0, 1) = 4; letter(0, 2) = 8; letter(0, 5) = 0; arrive(0) = 0; cause(0) = 6; cause(1) = 7;",
                 "cause(2) = -4; count(5) = 1; letter(0, 0) = 1; letter(0, 1) = 4; letter(0, 4) = 0; arrive(0) = 1;");
-        Check.runWith("p4;b8;", "arrive: no window, but a pure ACK at expected fits", OPEN, "say(1, 7) = 1;", says(0, 1, 12),
+        Check.runWith("p4;b8;", "arrive: no window, but a pure ACK at expected fits", OPEN, "say(1, 7) = 1;", Check.says(0, 1, 12),
                 "arrive(1) = 1; arrive(1) = 1; lose(0) = 2; arrive(0) = 1; arrive(0) = 1; pass(3) = 3; count(5) = 2;",
                 "arrive(0) = 1; end(1, 5) = 9; end(1, 7) = 9; arrive(0) = 1; arrive(1) = 1; count(5) = 1; end(0, 5) = 2;",
                 "letter(0, 5) = 0; end(1, 1) = 2; end(1, 11) = 0;");
@@ -201,14 +193,14 @@ public final class WireTest {
     }
 
     private static void arriveBytes() {
-        Check.run("arrive: bytes in and out of order", OPEN, says(0, 1, 12), "count(5) = 3; arrive(2) = 1; end(1, 5) = 1;",
+        Check.run("arrive: bytes in and out of order", OPEN, Check.says(0, 1, 12), "count(5) = 3; arrive(2) = 1; end(1, 5) = 1;",
                 "span(1, -1, 0) = 1; span(1, 0, 0) = 6; span(1, 0, 1) = 10; take(1) = -4; arrive(0) = 1; end(1, 5) = 2;",
                 "letter(1, 6) = 1; letter(1, 8) = 0; letter(1, 9) = 4; letter(2, 3) = 252; letter(2, 6) = 1; arrive(0) = 1;",
                 "end(1, 5) = 10; span(1, -1, 0) = 0; letter(2, 6) = 0; letter(2, 3) = 4; letter(2, 4) = 3;",
                 "take(1) = 1; take(1) = 2; take(1) = 3; take(1) = 4; take(1) = 5; take(1) = 6; take(1) = 7; take(1) = 8;");
         Check.run("arrive: a pure ACK is not answered", OPEN, "say(0, 1) = 1; arrive(0) = 1; count(5) = 1; arrive(0) = 1;",
                 "count(5) = 0; count(7) = 5;");
-        Check.runWith("p1;b20;f0,0;", "arrive: two ranges are told", OPEN, says(0, 1, 8), "count(5) = 8; arrive(1) = 1;",
+        Check.runWith("p1;b20;f0,0;", "arrive: two ranges are told", OPEN, Check.says(0, 1, 8), "count(5) = 8; arrive(1) = 1;",
                 "arrive(2) = 1; arrive(3) = 1; arrive(4) = 1; span(1, -1, 0) = 4; span(1, 3, 1) = 9; count(5) = 8;",
                 "letter(7, 6) = 2; letter(7, 8) = 2; letter(7, 9) = 3; letter(7, 10) = 4; letter(7, 11) = 5;",
                 "arrive(7) = 1; known(0, 2) = 1; known(0, 3) = 0; known(0, 4) = 1; known(0, 6) = 0; known(0, 1) = 0;",
@@ -219,19 +211,19 @@ public final class WireTest {
     private static void arriveOldBytes() {
         String old = "quit(0) = 4; quit(1) = 4; lose(3) = 3; lose(2) = 2; lose(0) = 1; open(1, 0) = 1; open(0, 1) = 2;"
                 + "arrive(1) = 1 x 3; arrive(0) = 1; span(1, 0, 0) = 2; span(1, 0, 1) = 6; count(5) = 1;";
-        Check.run("arrive: bytes that are held already stay", OPEN, says(0, 1, 5), old, "say(0, 11) = 1; say(0, 12) = 2;",
+        Check.run("arrive: bytes that are held already stay", OPEN, Check.says(0, 1, 5), old, "say(0, 11) = 1; say(0, 12) = 2;",
                 "say(0, 13) = 3; say(0, 14) = 4; say(0, 15) = 5; count(5) = 3; byteOf(2, 0) = 12; arrive(2) = 1; arrive(1) = 1;",
                 "end(1, 5) = 6; take(1) = 11; take(1) = 2; take(1) = 3; take(1) = 4; take(1) = 5; take(1) = -4;");
-        Check.run("arrive: held bytes at the position of FIN", OPEN, says(0, 1, 5), old, "say(0, 11) = 1; leave(0) = 5;",
+        Check.run("arrive: held bytes at the position of FIN", OPEN, Check.says(0, 1, 5), old, "say(0, 11) = 1; leave(0) = 5;",
                 "letter(2, 2) = 252; arrive(2) = 1; end(1, 17) = 2; arrive(1) = 1; end(1, 5) = 6; end(1, 0) = 4; calm(4) = 1;",
                 "take(1) = 11; take(1) = -4; end(1, 6) = 2;");
-        Check.run("arrive: FIN is noted before the bytes come", OPEN, says(0, 1, 4), "leave(0) = 5; count(5) = 2;",
+        Check.run("arrive: FIN is noted before the bytes come", OPEN, Check.says(0, 1, 4), "leave(0) = 5; count(5) = 2;",
                 "arrive(1) = 1; end(1, 17) = 5; lose(0) = 1; arrive(0) = 1; pass(3) = 3; arrive(0) = 1; end(1, 17) = 5;",
                 "end(1, 0) = 7; end(1, 5) = 6; take(1) = 1; take(1) = 2;");
     }
 
     private static void arriveFin() {
-        Check.run("arrive: FIN before the bytes", OPEN, says(0, 1, 3), "leave(0) = 5; arrive(1) = 1; end(1, 17) = 4;",
+        Check.run("arrive: FIN before the bytes", OPEN, Check.says(0, 1, 3), "leave(0) = 5; arrive(1) = 1; end(1, 17) = 4;",
                 "end(1, 0) = 4; end(1, 5) = 1; span(1, 0, 1) = 4; arrive(0) = 1; end(1, 5) = 5; end(1, 0) = 7;",
                 "letter(1, 3) = 255; arrive(0) = 1; end(0, 0) = 5; arrive(0) = 1; end(0, 0) = 6; end(0, 11) = 0;",
                 "end(0, 1) = 5; end(0, 2) = 5;");
@@ -272,7 +264,7 @@ public final class WireTest {
                 "pass(1) = 1; arrive(0) = 1; end(0, 1) = 3; end(0, 11) = 0; end(0, 3) = 13;");
         Check.run("an ACK of the same position does not touch the timer", OPEN, "say(0, 1) = 1; pass(1) = 1; end(0, 11) = 2;",
                 "say(1, 9) = 1; letter(1, 3) = 251; arrive(1) = 1; end(0, 1) = 1; end(0, 11) = 2; end(0, 16) = 1;");
-        Check.run("marked positions are forgotten below acked", OPEN, says(0, 1, 9), "arrive(2) = 1; arrive(2) = 1;",
+        Check.run("marked positions are forgotten below acked", OPEN, Check.says(0, 1, 9), "arrive(2) = 1; arrive(2) = 1;",
                 "known(0, 5) = 0; known(0, 6) = 1; known(0, 9) = 1; known(0, 10) = 0; arrive(0) = 1 x 4; end(0, 1) = 10;",
                 "known(0, 6) = 0; known(0, 9) = 0;");
     }
@@ -291,7 +283,7 @@ public final class WireTest {
                 "arrive(0) = 1; arrive(1) = 1; end(0, 16) = -4; sample(0, 1) = 1; say(0, 3) = 2; end(0, 16) = 3; arrive(0) = 1;",
                 "arrive(1) = 1; end(0, 1) = 3; end(0, 16) = 3; sample(0, 2) = -4; pass(1) = 1; arrive(0) = 1 x 2;",
                 "end(0, 16) = -4; sample(0, 0) = 1; sample(0, 2) = 1; end(0, 1) = 4;");
-        Check.run("only one position is timed", OPEN, says(0, 1, 5), "end(0, 16) = 1; pass(1) = 1; arrive(0) = 1; arrive(1) = 1;",
+        Check.run("only one position is timed", OPEN, Check.says(0, 1, 5), "end(0, 16) = 1; pass(1) = 1; arrive(0) = 1; arrive(1) = 1;",
                 "end(0, 16) = -4; sample(0, 0) = 1; arrive(0) = 1 x 2; end(0, 1) = 6; sample(0, 1) = 1; sample(0, 2) = -4;");
         Check.run("a retransmission ends the timing", OPEN, "say(0, 1) = 1; end(0, 16) = 1; pass(3) = 3; end(0, 16) = -4;",
                 "arrive(0) = 1; lose(0) = 1; arrive(0) = 1; end(0, 1) = 2; sample(0, 1) = -4; end(0, 8) = 6;",
@@ -299,7 +291,7 @@ public final class WireTest {
         Check.run("the timeout is at most 64", "open(0, 1) = 1; pass(6) = 6; end(0, 8) = 12; pass(12) = 18; end(0, 8) = 24;",
                 "pass(24) = 42; end(0, 8) = 48; pass(48) = 90; end(0, 8) = 64; pass(64) = 154; end(0, 8) = 64; end(0, 11) = 64;",
                 "count(9) = 5; count(5) = 6;");
-        Check.run("the timed position is the last one", "open(1, 0) = 0; open(0, 1) = 1;", says(0, 1, 9), "arrive(0) = 1 x 2;",
+        Check.run("the timed position is the last one", "open(1, 0) = 0; open(0, 1) = 1;", Check.says(0, 1, 9), "arrive(0) = 1 x 2;",
                 "end(0, 16) = 4; count(5) = 3;");
     }
 
@@ -313,7 +305,7 @@ public final class WireTest {
         Check.run("twice", "twice(0) = -1; twice(-1) = -1; open(0, 1) = 1; twice(1) = -1; twice(0) = 2; count(7) = 1;",
                 "open(1, 1) = 3; twice(0) = 4; letter(3, 0) = 0; letter(3, 2) = 250; twice(2) = 5; letter(4, 0) = 1;",
                 "letter(4, 2) = 100; count(7) = 2; count(5) = 5;");
-        Check.run("twice: a copy with all that the segment has", OPEN, says(0, 1, 6), "cry(0) = 7; lose(0) = 1; pass(3) = 3;",
+        Check.run("twice: a copy with all that the segment has", OPEN, Check.says(0, 1, 6), "cry(0) = 7; lose(0) = 1; pass(3) = 3;",
                 "arrive(0) = 1; twice(1) = 3; letter(2, 0) = 1; letter(2, 6) = 1; letter(2, 8) = 252; letter(2, 9) = 0;",
                 "letter(2, 4) = 12; twice(0) = 4; letter(3, 7) = 1; byteOf(3, 0) = 1; letter(3, 5) = 4; lose(0) = 3;",
                 "letter(2, 7) = 1; byteOf(2, 0) = 1; letter(0, 6) = 1; letter(1, 9) = 0; lose(0) = 2; letter(0, 9) = 0;");
@@ -350,7 +342,7 @@ public final class WireTest {
     private static void retransmit() {
         Check.run("retransmit: a SYN in SYN_RECEIVED", "open(1, 0) = 0; open(0, 1) = 1; arrive(0) = 1; lose(0) = 0; pass(6) = 6;",
                 "count(5) = 2; letter(0, 1) = 1; letter(1, 1) = 5; letter(1, 3) = 251; count(9) = 2; end(1, 16) = -4;");
-        Check.run("retransmit: up to the next marked position", OPEN, says(0, 1, 13), "count(5) = 3; lose(0) = 2;",
+        Check.run("retransmit: up to the next marked position", OPEN, Check.says(0, 1, 13), "count(5) = 3; lose(0) = 2;",
                 "arrive(0) = 1; lose(0) = 1; arrive(0) = 1; known(0, 1) = 0; known(0, 2) = 1; known(0, 5) = 1; known(0, 6) = 0;",
                 "pass(3) = 3; count(5) = 1; letter(0, 2) = 251; letter(0, 5) = 1; count(9) = 1; pass(6) = 9; letter(1, 5) = 1;",
                 "arrive(0) = 1; arrive(1) = 1; end(0, 1) = 6; end(0, 2) = 10; end(0, 8) = 12; end(0, 11) = 12; pass(12) = 21;",
@@ -358,9 +350,9 @@ public final class WireTest {
         Check.run("retransmit: bytes of several segments, and FIN", OPEN, "say(0, 1) = 1; say(0, 2) = 2; leave(0) = 5;",
                 "count(5) = 2; lose(0) = 1; lose(0) = 0; pass(3) = 3; count(5) = 1; letter(0, 1) = 6; letter(0, 5) = 2;",
                 "letter(0, 2) = 251; end(0, 2) = 4; count(9) = 1; end(0, 8) = 6; arrive(0) = 1; end(1, 0) = 7;");
-        Check.run("retransmit: as many bytes as the segment size, and FIN", OPEN, says(0, 1, 4), "leave(0) = 5;",
+        Check.run("retransmit: as many bytes as the segment size, and FIN", OPEN, Check.says(0, 1, 4), "leave(0) = 5;",
                 "lose(0) = 1; lose(0) = 0; pass(3) = 3; letter(0, 1) = 6; letter(0, 5) = 4; end(0, 2) = 6;");
-        Check.run("retransmit: the segment size leaves FIN for later", OPEN, says(0, 1, 5), "leave(0) = 5;",
+        Check.run("retransmit: the segment size leaves FIN for later", OPEN, Check.says(0, 1, 5), "leave(0) = 5;",
                 "lose(0) = 2; lose(0) = 1; lose(0) = 0; pass(3) = 3; letter(0, 1) = 4; letter(0, 5) = 4; end(0, 2) = 7;");
         Check.run("retransmit: FIN alone", OPEN, "leave(0) = 5; lose(0) = 0; pass(3) = 3; count(5) = 1; letter(0, 1) = 6;",
                 "letter(0, 5) = 0; letter(0, 2) = 251; letter(0, 7) = -4; end(0, 16) = -4; count(9) = 1;");
@@ -370,7 +362,7 @@ public final class WireTest {
     }
 
     private static void stalled() {
-        Check.runWith("p4;b8;", "stalled: a small segment, then probes", OPEN, says(0, 1, 12), "arrive(0) = 1 x 4; count(5) = 0;",
+        Check.runWith("p4;b8;", "stalled: a small segment, then probes", OPEN, Check.says(0, 1, 12), "arrive(0) = 1 x 4; count(5) = 0;",
                 "end(0, 1) = 6; end(0, 2) = 6; end(0, 3) = 9; end(0, 4) = 7; end(0, 11) = 3; end(0, 16) = -4; pass(3) = 3;",
                 "count(5) = 1; letter(0, 1) = 4; letter(0, 2) = 6; letter(0, 5) = 3; end(0, 2) = 9; end(0, 16) = 8;",
                 "count(9) = 0; end(0, 8) = 6; end(0, 11) = 6; arrive(0) = 1 x 2; end(0, 1) = 9; end(0, 8) = 3; end(0, 11) = 3;",
@@ -379,9 +371,9 @@ public final class WireTest {
                 "take(1) = 1; take(1) = 2; take(1) = 3; take(1) = 4; end(1, 7) = 13; count(5) = 3; arrive(0) = 0;",
                 "cause(1) = 9; count(5) = 3; arrive(1) = 1; end(0, 3) = 13; end(0, 2) = 13; end(0, 4) = 4; end(0, 16) = 12;",
                 "end(0, 11) = 12; count(5) = 3; letter(2, 5) = 4; letter(2, 2) = 9;");
-        Check.runWith("p1;b2;", "stalled: one unsent byte is enough", OPEN, says(0, 1, 3), "arrive(0) = 1 x 4; end(0, 1) = 3;",
+        Check.runWith("p1;b2;", "stalled: one unsent byte is enough", OPEN, Check.says(0, 1, 3), "arrive(0) = 1 x 4; end(0, 1) = 3;",
                 "end(0, 2) = 3; end(0, 3) = 3; end(0, 11) = 3; pass(3) = 3; letter(0, 2) = 2; letter(0, 5) = 0;");
-        Check.runWith("p4;b8;", "stalled: FIN waits at the edge", OPEN, says(0, 1, 8), "leave(0) = 4; arrive(0) = 1 x 6;",
+        Check.runWith("p4;b8;", "stalled: FIN waits at the edge", OPEN, Check.says(0, 1, 8), "leave(0) = 4; arrive(0) = 1 x 6;",
                 "end(0, 1) = 9; end(0, 2) = 9; end(0, 4) = 0; end(0, 11) = 3; pass(3) = 3; letter(0, 2) = 8; letter(0, 1) = 4;",
                 "end(0, 0) = 4; end(0, 2) = 9;");
     }
@@ -433,7 +425,7 @@ public final class WireTest {
 
     private static StreamEnds readied() {
         StreamEnds x = new StreamEnds();
-        Check.play("readied", x, OPEN, says(0, 1, 9), "say(1, 1) = 1; twice(1) = 5; count(5) = 5;");
+        Check.play("readied", x, OPEN, Check.says(0, 1, 9), "say(1, 1) = 1; twice(1) = 5; count(5) = 5;");
         return x;
     }
 
@@ -445,7 +437,7 @@ public final class WireTest {
                 "end(1, 0) = 1; end(0, 11) = 6; cause(0) = -4; take(1) = -4; sample(0, 0) = -4; letter(0, 1) = 1;");
         Check.run("calm: a refused connection", "open(0, 1) = 1; calm(0) = 2; calm(1) = 0; calm(2) = 0; calm(5) = 1;",
                 "pass(5) = 5; calm(0) = 3; open(1, 0) = 1; calm(1) = 4; calm(2) = 4;");
-        Check.runWith("p4;b8;", "calm: 300 ticks at the most", OPEN, says(0, 1, 12), "calm(0) = 300; calm(1) = 4; calm(4) = 8;",
+        Check.runWith("p4;b8;", "calm: 300 ticks at the most", OPEN, Check.says(0, 1, 12), "calm(0) = 300; calm(1) = 4; calm(4) = 8;",
                 "count(6) = 0; count(5) = 2;");
         Check.run("calm: the causes stay", OPEN, "say(0, 1) = 1; twice(0) = 2; arrive(0) = 1; arrive(0) = 0; cause(1) = 9;",
                 "calm(0) = 1; cause(0) = 6; cause(1) = 9; count(10) = 1; twice(0) = 3; calm(5) = 0; count(10) = 1;");
@@ -454,12 +446,12 @@ public final class WireTest {
     /** What calm() tells is what the calls for it then bring about. */
     private static void calmIsPlayed() {
         String[][] states = {
-            {OPEN, says(0, 1, 20), "say(1, 5) = 1; cry(0) = 21; lose(0) = 3; arrive(0) = 1; pass(2) = 2; leave(0) = 4;"},
-            {OPEN, says(0, 1, 9), "arrive(2) = 1 x 2; known(0, 6) = 1; pass(1) = 1; lose(0) = 1; say(1, 3) = 1; leave(1) = 5;"},
-            {OPEN, says(1, 1, 3), "leave(1) = 5; arrive(1) = 1; end(0, 17) = 4; lose(0) = 1; pass(1) = 1; leave(0) = 5;"},
+            {OPEN, Check.says(0, 1, 20), "say(1, 5) = 1; cry(0) = 21; lose(0) = 3; arrive(0) = 1; pass(2) = 2; leave(0) = 4;"},
+            {OPEN, Check.says(0, 1, 9), "arrive(2) = 1 x 2; known(0, 6) = 1; pass(1) = 1; lose(0) = 1; say(1, 3) = 1; leave(1) = 5;"},
+            {OPEN, Check.says(1, 1, 3), "leave(1) = 5; arrive(1) = 1; end(0, 17) = 4; lose(0) = 1; pass(1) = 1; leave(0) = 5;"},
             {OPEN, "leave(0) = 5; arrive(0) = 1 x 2; leave(1) = 9; pass(1) = 1; arrive(0) = 1; lose(0) = 0; pass(2) = 3;"},
             {OPEN, "say(0, 1) = 1; pass(2) = 2; arrive(0) = 1 x 2; say(0, 2) = 1; pass(3) = 5; say(1, 8) = 1; lose(0) = 1;"},
-            {"open(0, 1) = 1; open(1, 1) = 2;", says(0, 1, 7), "pass(5) = 5; twice(1) = 3; leave(1) = 0; open(1, 1) = 4;"},
+            {"open(0, 1) = 1; open(1, 1) = 2;", Check.says(0, 1, 7), "pass(5) = 5; twice(1) = 3; leave(1) = 0; open(1, 1) = 4;"},
         };
         for (int state = 0; state < states.length; state++) {
             StreamEnds x = new StreamEnds();
