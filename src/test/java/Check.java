@@ -64,16 +64,17 @@ final class Check {
         String[] due = sides[1].trim().split(" x ");
         int times = due.length > 1 ? Integer.parseInt(due[1].trim()) : 1;
         for (int k = 0; k < times; k++) {
-            same(title + ": " + call, answer(x, call), Integer.parseInt(due[0].trim()));
+            same(title + ": " + call, ask(x, call), Integer.parseInt(due[0].trim()));
         }
     }
 
-    private static int answer(StreamEnds x, String call) {
+    /** The answer to a call that is written as in the document. */
+    static int ask(StreamEnds x, String call) {
         int open = call.indexOf('(');
         String inside = call.substring(open + 1, call.indexOf(')')).trim();
         int[] args = inside.isEmpty() ? new int[0]
                 : Arrays.stream(inside.split(",")).map(String::trim).mapToInt(Integer::parseInt).toArray();
-        return call(x, call.substring(0, open), args);
+        return call(x, call.substring(0, open).trim(), args);
     }
 
     /** Calls a method of an object with the face of StreamEnds by its name. */

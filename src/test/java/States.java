@@ -1,0 +1,81 @@
+/** Runs of calls that many tests begin with: endpoint 0 in each of its states, and what is full. */
+final class States {
+    /** A handshake: both endpoints are ESTABLISHED, and the wire is empty. */
+    static final String OPEN = "open(1, 0) = 0; open(0, 1) = 1; arrive(0) = 1 x 3;";
+
+    /** OPEN_AGAIN does the same for endpoints that are CLOSED when one old segment is on the wire. */
+    static final String OPEN_AGAIN = "open(1, 0) = 1; open(0, 1) = 2; arrive(1) = 1 x 3;";
+
+    /** The run with the index s brings endpoint 0 into state s. */
+    static final String[] RUNS = {
+        "",
+        "open(0, 0) = 0;",
+        "open(0, 1) = 1;",
+        "open(0, 0) = 0; open(1, 1) = 1; arrive(0) = 1;",
+        OPEN,
+        OPEN + "leave(0) = 5;",
+        OPEN + "leave(0) = 5; arrive(0) = 1 x 2;",
+        OPEN + "leave(1) = 5; arrive(0) = 1;",
+        OPEN + "leave(0) = 5; leave(1) = 5; arrive(1) = 1;",
+        OPEN + "leave(1) = 5; arrive(0) = 1; leave(0) = 9;",
+        OPEN + "leave(0) = 5; arrive(0) = 1; leave(1) = 9; arrive(0) = 1 x 2;"};
+
+    static final int SYN_SENT = 2, SYN_RECEIVED = 3, ESTABLISHED = 4, CLOSE_WAIT = 7;
+
+    /** Endpoint 0 has 32 pending bytes in the states in which it may write. */
+    static final String[] FULL_PENDING = {
+        RUNS[SYN_SENT] + Check.says(0, 1, 32),
+        RUNS[SYN_RECEIVED] + Check.says(0, 1, 32),
+        RUNS[ESTABLISHED] + Check.says(0, 1, 32),
+        RUNS[CLOSE_WAIT] + Check.says(0, 1, 32)};
+
+    /** Endpoint 0 is releasing, but has not sent its FIN. */
+    static final String[] RELEASING = {
+        RUNS[SYN_RECEIVED] + "leave(0) = 3;",
+        RUNS[ESTABLISHED] + Check.says(0, 1, 20) + "leave(0) = 4;",
+        RUNS[CLOSE_WAIT] + Check.says(0, 1, 20) + "leave(0) = 7;"};
+
+    /** Endpoint 0 is CLOSED after it has been used. */
+    static final String[] USED = {
+        RUNS[SYN_SENT] + "leave(0) = 0;",
+        OPEN + "say(0, 1) = 1; say(1, 2) = 1; arrive(0) = 1 x 2; pass(2) = 2; quit(0) = 4;",
+        OPEN + "say(1, 2) = 1; arrive(0) = 1; quit(1) = 4; arrive(1) = 1;",
+        RUNS[10] + "pass(10) = 10;"};
+
+    /** The wire is full; endpoint 0 is ESTABLISHED, or both endpoints are CLOSED. */
+    static final String[] FULL_WIRE = {
+        OPEN + "say(0, 1) = 1; cry(0) = 2;" + fill(1),
+        "open(0, 1) = 1; open(1, 1) = 2; quit(0) = 2; quit(1) = 2;" + fill(2)};
+
+    /** Endpoint 1 holds a range, of which endpoint 0 knows; the last segment was dropped. */
+    static final String HOLDING = OPEN + Check.says(0, 1, 13) + "arrive(2) = 1 x 2; lose(1) = 1; pass(3) = 3;"
+            + "arrive(1) = 1; arrive(0) = 0; take(1) = 1;";
+
+    /** The text has 200 characters and a fault. */
+    static final String FULL_TEXT = "write(112) = 1;" + fullText();
+
+    private States() {
+    }
+
+    /** Duplicates the first segment until the wire has 20. */
+    static String fill(int size) {
+        return fill(size, 20);
+    }
+
+    /** Duplicates the first segment of a wire of this size until the wire has so many. */
+    static String fill(int size, int most) {
+        StringBuilder calls = new StringBuilder();
+        for (int k = size + 1; k <= most; k++) {
+            calls.append("twice(0) = ").append(k).append("; ");
+        }
+        return calls.toString();
+    }
+
+    private static String fullText() {
+        StringBuilder calls = new StringBuilder();
+        for (int k = 2; k <= 200; k++) {
+            calls.append("write(59) = ").append(k).append("; ");
+        }
+        return calls.toString();
+    }
+}
