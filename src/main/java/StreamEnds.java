@@ -645,13 +645,14 @@ public final class StreamEnds {
 
         Segment remove(int i) {
             if (has(i)) {
+                int last = Math.min(size, WIRE_SIZE) - 1;
                 Segment gone = slots[i];
-                for (int k = i + 1; k < size; k++) {
-                    slots[k - 1] = slots[k];
+                for (int k = i; k < last; k++) {
+                    slots[k] = slots[k + 1];
                 }
-                size--;
-                slots[size] = removed;
+                slots[last] = removed;
                 removed = gone;
+                size = last;
             }
             return removed;
         }

@@ -16,6 +16,10 @@ public final class ConfigurationTest {
         ranges();
         firstFault();
         bufferIsTwiceTheSegment();
+        aNewObject();
+        layBeginsAgain();
+        layRefused();
+        wipe();
         Check.end("ConfigurationTest");
     }
 
@@ -63,7 +67,8 @@ public final class ConfigurationTest {
     private static void codes() {
         Check.run("codes 32 to 126: the lowest", "write(31) = -1; write(32) = 1; count(11) = 1;");
         Check.run("codes 32 to 126: the highest", "write(127) = -1; write(126) = 1; count(11) = 1;");
-        Check.run("codes 32 to 126: far away", "write(-2147483648) = -1; write(2147483647) = -1; write(0) = -1; write(-1) = -1;",
+        Check.run("codes 32 to 126: far away", "write(-2147483648) = -1; write(2147483647) = -1; write(0) = -1; "
+                + "write(-1) = -1;",
                 "write(10) = -1; write(128) = -1; write(255) = -1; write(368) = -1; count(11) = 0;");
         for (int code = 32; code <= 126; code++) {
             Check.run("codes 32 to 126", "write(" + code + ") = 1;");
@@ -91,7 +96,8 @@ public final class ConfigurationTest {
         setsUp("5 ticks", "p3;b9;f1,2;", 3, 9, 1, 2, 5);
         StreamEnds x = new StreamEnds();
         Check.write(x, "p1;b2;f9,8;l20;");
-        Check.play("what there is no item for is not as before", x, "lay() = 1; wipe() = 15; lay() = 4; count(0) = 4; count(1) = 16;",
+        Check.play("what there is no item for is not as before", x, "lay() = 1; wipe() = 15; lay() = 4; count(0) = 4; "
+                + "count(1) = 16;",
                 "count(2) = 0; count(3) = 0; count(4) = 5;");
     }
 
@@ -102,12 +108,14 @@ public final class ConfigurationTest {
         setsUp(s + ": two", "p03;b12;f12,34;l19;", 3, 12, 12, 34, 19);
         setsUp(s + ": three", "p003;b012;f123,234;l019;", 3, 12, 123, 234, 19);
         wrong(s + ": four", "p0003;", "b0012;", "l0019;", "f0123,1;", "f1,0123;", "f0000,0;");
-        wrong(s + ": other characters", "p/;", "p:;", "p-1;", "p+1;", "p1.;", "b0x9;", "b1a;", "l1l;", "fa,1;", "f1,a;", "f-1,1;", "f1,-1;");
+        wrong(s + ": other characters", "p/;", "p:;", "p-1;", "p+1;", "p1.;", "b0x9;", "b1a;", "l1l;", "fa,1;", "f1,a;",
+                "f-1,1;", "f1,-1;");
     }
 
     private static void commas() {
         String s = "',' between two of them";
-        wrong(s, "f1;", "f12;", "f1,2,3;", "f1,,2;", "f,1,2;", "f1,2,;", "f1 2;", "f1;2;", "f1.2;", "p4,4;", "b9,;", "l,5;", "p4,;");
+        wrong(s, "f1;", "f12;", "f1,2,3;", "f1,,2;", "f,1,2;", "f1,2,;", "f1 2;", "f1;2;", "f1.2;", "p4,4;", "b9,;", "l,5;",
+                "p4,;");
     }
 
     private static void semicolons() {
@@ -171,7 +179,8 @@ public final class ConfigurationTest {
         fault(s + ": not the second", "p4;b99;f1,256;l55;", 3);
         fault(s + ": at the end of a full text", "p4;".repeat(66) + "p4", 198);
         fault(s + ": at its last character", "p04;" + "p4;".repeat(65) + "p", 199);
-        Check.run("the fault of the text, as it is now", "fault() = -4; write(112) = 1; fault() = 0; write(52) = 2; fault() = 0;",
+        Check.run("the fault of the text, as it is now", "fault() = -4; write(112) = 1; fault() = 0; write(52) = 2; "
+                + "fault() = 0;",
                 "write(59) = 3; fault() = -4; write(112) = 4; fault() = 3; wipe() = 4; fault() = -4;");
     }
 
@@ -180,12 +189,65 @@ public final class ConfigurationTest {
             setsUp("at least twice its segment size", "p" + p + ";b" + 2 * p + ";", p, 2 * p, 0, 0, 5);
             StreamEnds x = new StreamEnds();
             Check.write(x, p == 1 ? "p2;b3;" : "p" + p + ";b" + (2 * p - 1) + ";");
-            Check.play("less than twice its segment size", x, "open(0, 1) = 1; fault() = -4; lay() = -2; count(0) = 4; count(1) = 12;",
+            Check.play("less than twice its segment size", x, "open(0, 1) = 1; fault() = -4; lay() = -2; count(0) = 4; "
+                    + "count(1) = 12;",
                     "count(2) = 250; count(3) = 100; count(4) = 5; count(5) = 1; end(0, 0) = 2; end(0, 7) = 13;");
         }
         StreamEnds x = new StreamEnds();
         Check.write(x, "b7;");
         Check.play("less than twice the segment size that no item tells", x, "fault() = -4; lay() = -2;");
         setsUp("at least twice the segment size that no item tells", "b8;", 4, 8, 0, 0, 5);
+    }
+
+    private static void aNewObject() {
+        Check.run("At first the configuration is that of the text p4;b12;f250,100;l5;",
+                "count(0) = 4; count(1) = 12; count(2) = 250; count(3) = 100; count(4) = 5; end(0, 7) = 13; end(1, 7) = 13;");
+        Check.run("(and the text itself is empty)", "count(11) = 0; fault() = -4; wipe() = 0; write(112) = 1;");
+        Check.run("as after lay()", "write(112) = 1; write(52) = 2; write(59) = 3; lay() = 4; count(0) = 4; count(1) = 16; "
+                + "count(2) = 0; count(3) = 0; count(4) = 5;");
+    }
+
+    /** Both endpoints are at work, segments are on the wire, and none of the counts is 0. */
+    private static final String BUSY = "write(112) = 1; write(52) = 2; write(59) = 3;" + States.OPEN
+            + "say(0, 1) = 1; say(1, 2) = 1; pass(3) = 3; arrive(2) = 1; arrive(0) = 0;"
+            + States.fill(4) + "pass(6) = 9; leave(1) = 5; count(5) = 20; count(10) = 1;";
+
+    private static void layBeginsAgain() {
+        Check.run("lay: how it was before", BUSY, "end(0, 0) = 4; end(1, 0) = 5; count(6) = 9; count(7) = 12; count(8) = 3; "
+                + "count(9) = 4; cause(0) = 6; cause(1) = 9;");
+        Check.run("lay: both endpoints are CLOSED", BUSY, "lay() = 4; end(0, 0) = 0; end(1, 0) = 0; end(0, 11) = 0; "
+                + "end(1, 11) = 0; open(0, 0) = 0; open(1, 0) = 0;");
+        Check.run("lay: with the values at the start", BUSY, "lay() = 4; end(0, 1) = 0; end(0, 2) = 0; end(0, 3) = 1; "
+                + "end(0, 4) = 0; end(0, 5) = 0; end(0, 6) = 1; end(0, 7) = 17; end(0, 8) = 6;",
+                "end(0, 9) = 0; end(0, 10) = 0; end(0, 12) = 0; end(0, 13) = 0; end(1, 13) = 0; end(0, 16) = -4; "
+                        + "end(1, 16) = -4; sample(0, 0) = -4; sample(1, 0) = -4;");
+        Check.run("lay: the wire is empty", BUSY, "lay() = 4; count(5) = 0; letter(0, 0) = -1; arrive(0) = -1; "
+                + "open(0, 1) = 1;");
+        Check.run("lay: the time is 0", BUSY, "lay() = 4; count(6) = 0; pass(1) = 1;");
+        Check.run("lay: the counts 7 to 10 of count() are 0", BUSY, "lay() = 4; count(7) = 0; count(8) = 0; count(9) = 0; "
+                + "count(10) = 0;");
+        Check.run("lay: the text stays", BUSY, "lay() = 4; count(11) = 3; lay() = 4; wipe() = 3;");
+        Check.run("lay: no segment has arrived since", BUSY, "lay() = 4; cause(0) = -4; cause(1) = -4;");
+        Check.run("lay: TIME_WAIT and its wait timer are gone", States.RUNS[10], "lay() = 4; end(0, 0) = 0; end(0, 12) = 0; "
+                + "calm(0) = 0;");
+    }
+
+    private static void layRefused() {
+        Check.run("lay: NO if the text has a fault", BUSY, "write(59) = 4; fault() = 3; lay() = -2; count(5) = 20; "
+                + "count(6) = 9; end(0, 0) = 4; end(1, 0) = 5; count(11) = 4; cause(0) = 6;");
+        Check.run("lay: NO if the buffer size is less than twice the segment size", BUSY,
+                "write(98) = 4; write(55) = 5; write(59) = 6; fault() = -4; lay() = -2; count(5) = 20; count(6) = 9;",
+                "end(0, 0) = 4; end(1, 0) = 5; count(1) = 12; count(0) = 4; count(2) = 250; count(11) = 6;");
+        Check.run("fault: it changes nothing", BUSY, "fault() = -4; count(1) = 12; count(2) = 250; count(5) = 20; "
+                + "write(112) = 4; fault() = 3; count(1) = 12; count(2) = 250; count(11) = 4;");
+    }
+
+    private static void wipe() {
+        Check.run("wipe: how many characters it had: none", "wipe() = 0; wipe() = 0; count(11) = 0;");
+        Check.run("wipe: how many characters it had: one", "write(32) = 1; wipe() = 1; wipe() = 0; count(11) = 0;");
+        Check.run("wipe: how many characters it had: 200", States.FULL_TEXT, "wipe() = 200; wipe() = 0; write(112) = 1; "
+                + "fault() = 0;");
+        Check.run("wipe: the configuration stays", BUSY, "wipe() = 3; count(0) = 4; count(1) = 12; count(5) = 20; "
+                + "end(0, 0) = 4; lay() = 4; count(1) = 16;");
     }
 }

@@ -9,10 +9,12 @@ public final class PositionsTest {
         numberNearPosition();
         ackNumberNearPosition();
         oldNumberNearPosition();
+        farPositions();
         fin();
         pendingBytes();
         unsentBytes();
         ranges();
+        marked();
         window();
         valuesAtTheStart();
         closedKeepsItsValues();
@@ -42,7 +44,8 @@ public final class PositionsTest {
                 "arrive(0) = 1; letter(0, 2) = 254; letter(0, 3) = 0; arrive(0) = 1; letter(0, 2) = 0; letter(0, 3) = 255;");
         Check.runWith("f0,253;", s + ": from 0 on", "open(1, 0) = 0; open(0, 1) = 1; letter(0, 2) = 0; arrive(0) = 1;",
                 "letter(0, 2) = 253; letter(0, 3) = 1; arrive(0) = 1; letter(0, 2) = 1; letter(0, 3) = 254;");
-        Check.runWith("f254,0;", s + ": FIN at 255", OPEN, "leave(0) = 5; letter(0, 2) = 255; arrive(0) = 1; letter(0, 3) = 0;");
+        Check.runWith("f254,0;", s + ": FIN at 255", OPEN, "leave(0) = 5; letter(0, 2) = 255; arrive(0) = 1; "
+                + "letter(0, 3) = 0;");
         Check.runWith("f255,0;", s + ": FIN at 0", OPEN, "leave(0) = 5; letter(0, 2) = 0; arrive(0) = 1; letter(0, 3) = 1;");
     }
 
@@ -57,12 +60,17 @@ public final class PositionsTest {
         Check.runWith("f251,0;", "a range over 0", range, "letter(1, 8) = 253; letter(1, 9) = 1;", known);
         Check.runWith("f253,0;", "a range that ends behind 0", range, "letter(1, 8) = 255; letter(1, 9) = 3;", known);
         Check.runWith("f254,0;", "a range from 0 on", range, "letter(1, 8) = 0; letter(1, 9) = 4;", known);
-        Check.runWith("f254,0;", "the number of an RST, 255", OPEN, "quit(0) = 4; letter(0, 2) = 255; arrive(0) = 1; end(1, 0) = 0;");
-        Check.runWith("f255,0;", "the number of an RST, 0", OPEN, "quit(0) = 4; letter(0, 2) = 0; arrive(0) = 1; end(1, 0) = 0;");
-        Check.runWith("f254,0;", "the ack number of an RST in answer, 255", "open(0, 1) = 1; arrive(0) = 0; letter(0, 3) = 255; arrive(0) = 1;");
-        Check.runWith("f255,0;", "the ack number of an RST in answer, 0", "open(0, 1) = 1; arrive(0) = 0; letter(0, 3) = 0; arrive(0) = 1;");
+        Check.runWith("f254,0;", "the number of an RST, 255", OPEN, "quit(0) = 4; letter(0, 2) = 255; arrive(0) = 1; "
+                + "end(1, 0) = 0;");
+        Check.runWith("f255,0;", "the number of an RST, 0", OPEN, "quit(0) = 4; letter(0, 2) = 0; arrive(0) = 1; "
+                + "end(1, 0) = 0;");
+        Check.runWith("f254,0;", "the ack number of an RST in answer, 255", "open(0, 1) = 1; arrive(0) = 0; "
+                + "letter(0, 3) = 255; arrive(0) = 1;");
+        Check.runWith("f255,0;", "the ack number of an RST in answer, 0", "open(0, 1) = 1; arrive(0) = 0; letter(0, 3) = 0; "
+                + "arrive(0) = 1;");
         String probe = OPEN + "say(0, 1) = 1; say(0, 2) = 2; say(0, 3) = 3; arrive(0) = 1 x 4; pass(3) = 3;";
-        Check.runWith("p1;b2;f253,0;", "the number of a probe, 255", probe, "letter(0, 2) = 255; arrive(0) = 0; letter(0, 3) = 0;");
+        Check.runWith("p1;b2;f253,0;", "the number of a probe, 255", probe, "letter(0, 2) = 255; arrive(0) = 0; "
+                + "letter(0, 3) = 0;");
         Check.runWith("p1;b2;f254,0;", "the number of a probe, 0", probe, "letter(0, 2) = 0; arrive(0) = 0; letter(0, 3) = 1;");
     }
 
@@ -76,7 +84,8 @@ public final class PositionsTest {
         Check.runWith("f0,0;", "near p: p - 1", run, "arrive(0) = 0; cause(0) = 6; cause(1) = 9; end(0, 0) = 4;");
         Check.runWith("f0,255;", "near p: p itself", run, "arrive(0) = 1; cause(0) = -4; end(0, 0) = 0;");
         Check.runWith("f0,254;", "near p: p + 1", run, "arrive(0) = 1; cause(0) = -4; end(0, 0) = 0;");
-        Check.runWith("f0,240;", "near p: p + 15 is the last in the window", run, "arrive(0) = 1; cause(0) = -4; end(0, 0) = 0;");
+        Check.runWith("f0,240;", "near p: p + 15 is the last in the window", run, "arrive(0) = 1; cause(0) = -4; "
+                + "end(0, 0) = 0;");
         Check.runWith("f0,239;", "near p: p + 16 is behind the window", run, "arrive(0) = 0; cause(0) = 6; cause(1) = 8;");
     }
 
@@ -107,43 +116,76 @@ public final class PositionsTest {
     }
 
     /** Both ends are CLOSED and opened again, while one old segment stays on the wire. */
-    private static final String REOPENED = "count(5) = 1; quit(0) = 4; quit(1) = 4; lose(2) = 2; lose(1) = 1;" + States.OPEN_AGAIN
+    private static final String REOPENED = "count(5) = 1; quit(0) = 4; quit(1) = 4; lose(2) = 2; lose(1) = 1;"
+            + States.OPEN_AGAIN
             + "count(5) = 1;";
 
     private static void ackNumberNearPosition() {
         Check.play("near acked: acked + 127", brought(126), "say(0, 7) = 1; arrive(0) = 1; letter(0, 3) = 128;", REOPENED,
                 "end(0, 1) = 1; arrive(0) = 0; cause(0) = 5; count(5) = 1;");
-        Check.play("near acked: acked + 128 is acked - 128", brought(127), "say(0, 7) = 1; arrive(0) = 1; letter(0, 3) = 129;", REOPENED,
+        Check.play("near acked: acked + 128 is acked - 128", brought(127), "say(0, 7) = 1; arrive(0) = 1; letter(0, 3) = 129;",
+                REOPENED,
                 "arrive(0) = 1; cause(0) = -4; end(0, 1) = 1; end(0, 3) = 33; count(5) = 0;");
+        Check.play("near acked, not near sent", brought(127), "say(0, 7) = 1; arrive(0) = 1; letter(0, 3) = 129;", REOPENED,
+                "say(0, 1) = 1; end(0, 2) = 2;",
+                "arrive(0) = 1; cause(0) = -4; end(0, 1) = 1;");
+        Check.play("near acked, when acked is 2", brought(127), "say(0, 7) = 1; arrive(0) = 1; letter(0, 3) = 129;", REOPENED,
+                "say(0, 1) = 1; arrive(1) = 1; arrive(1) = 1;",
+                "end(0, 1) = 2; arrive(0) = 0; cause(0) = 5;");
     }
 
     private static void oldNumberNearPosition() {
         Check.play("near expected: expected + 127", brought(127), "say(0, 7) = 1; letter(0, 2) = 128;", REOPENED,
                 "end(1, 5) = 1; arrive(0) = 0; cause(0) = 6; cause(1) = 8;");
-        Check.play("near expected: expected + 128 is expected - 128 (perhaps negative)", brought(128), "say(0, 7) = 1; letter(0, 2) = 129;",
+        Check.play("near expected: expected + 128 is expected - 128 (perhaps negative)", brought(128),
+                "say(0, 7) = 1; letter(0, 2) = 129;",
                 REOPENED, "end(1, 5) = 1; arrive(0) = 0; cause(0) = 6; cause(1) = 9;");
+        Check.play("near expected, when expected is 2", brought(128), "say(0, 7) = 1; letter(0, 2) = 129;", REOPENED,
+                "say(0, 1) = 1; arrive(1) = 1; lose(1) = 1;",
+                "end(1, 5) = 2; end(1, 6) = 1; arrive(0) = 0; cause(0) = 6; cause(1) = 8;");
+    }
+
+    /** Positions over 128 are interpreted near acked and expected, not near 0. */
+    private static void farPositions() {
+        String five = "say(0, 1) = 1; say(0, 2) = 2; say(0, 3) = 3; say(0, 4) = 4; say(0, 5) = 5; say(0, 6) = 6; "
+                + "say(0, 7) = 7; say(0, 8) = 8; say(0, 9) = 9;";
+        Check.play("near acked: the numbers of a range", brought(140), five, "arrive(1) = 1; arrive(1) = 1; known(0, 141) = 0; "
+                + "known(0, 142) = 1; known(0, 149) = 1; known(0, 150) = 0;",
+                "span(1, 0, 0) = 142; span(1, 0, 1) = 150;");
+        Check.play("near expected: the urgent number", brought(140), five, "cry(0) = 150; lose(1) = 1; lose(0) = 0; "
+                + "pass(3) = 3; letter(0, 2) = 141; letter(0, 7) = 150; arrive(0) = 1;",
+                "end(1, 15) = 150; end(1, 5) = 149;");
+        Check.play("near expected: FIN", brought(140), "leave(0) = 5; letter(0, 2) = 141; arrive(0) = 1; end(1, 17) = 141; "
+                + "arrive(0) = 1; end(0, 1) = 142; end(0, 0) = 6;");
     }
 
     private static void fin() {
         Check.run("the position after the last byte is its FIN: no byte", OPEN, "leave(0) = 5; arrive(0) = 1; end(1, 17) = 1;");
-        Check.run("the position after the last byte is its FIN: bytes", OPEN, Check.says(0, 1, 5), "leave(0) = 5; arrive(0) = 1;",
-                "end(1, 17) = -4; arrive(0) = 1; end(1, 17) = -4; letter(0, 1) = 6; letter(0, 2) = 0; arrive(0) = 1; end(1, 17) = 6;");
+        Check.run("the position after the last byte is its FIN: bytes", OPEN, Check.says(0, 1, 5),
+                "leave(0) = 5; arrive(0) = 1;",
+                "end(1, 17) = -4; arrive(0) = 1; end(1, 17) = -4; letter(0, 1) = 6; letter(0, 2) = 0; arrive(0) = 1; "
+                        + "end(1, 17) = 6;");
     }
 
     private static void pendingBytes() {
         Check.run("pending: none at the start", "end(0, 4) = 0; open(0, 1) = 1; end(0, 4) = 0;");
-        Check.run("pending: all when acked is 0", "open(0, 1) = 1; end(0, 1) = 0; say(0, 1) = 1; say(0, 2) = 2; end(0, 4) = 2;");
+        Check.run("pending: all when acked is 0", "open(0, 1) = 1; end(0, 1) = 0; say(0, 1) = 1; say(0, 2) = 2; "
+                + "end(0, 4) = 2;");
         Check.run("pending: at positions that are at least acked", OPEN, Check.says(0, 1, 6), "arrive(0) = 1; arrive(1) = 1;",
-                "end(0, 1) = 2; end(0, 4) = 5; arrive(0) = 1 x 2; end(0, 1) = 6; end(0, 4) = 1; arrive(0) = 1 x 2; end(0, 1) = 7;",
+                "end(0, 1) = 2; end(0, 4) = 5; arrive(0) = 1 x 2; end(0, 1) = 6; end(0, 4) = 1; arrive(0) = 1 x 2; "
+                        + "end(0, 1) = 7;",
                 "end(0, 4) = 0; leave(0) = 5; arrive(0) = 1 x 2; end(0, 1) = 8; end(0, 4) = 0;");
         Check.run("pending: at most 32", OPEN, Check.says(0, 1, 31), "say(0, 5) = 32; say(0, 6) = -3; end(0, 4) = 32;");
-        Check.run("pending: 32 once more when one is acknowledged", OPEN, Check.says(0, 1, 32), "say(0, 5) = -3; arrive(0) = 1; arrive(2) = 1;",
+        Check.run("pending: 32 once more when one is acknowledged", OPEN, Check.says(0, 1, 32),
+                "say(0, 5) = -3; arrive(0) = 1; arrive(2) = 1;",
                 "end(0, 1) = 2; end(0, 4) = 31; say(0, 5) = 32; say(0, 6) = -3;");
     }
 
     private static void unsentBytes() {
-        Check.run("unsent: at positions that are at least sent", OPEN, Check.says(0, 1, 9), "end(0, 2) = 10; say(0, 10) = 10; end(0, 2) = 10;",
-                "lose(0) = 2; lose(0) = 1; arrive(0) = 1; lose(0) = 0; say(0, 11) = 11; say(0, 12) = 12; end(0, 2) = 10; say(0, 13) = 13;",
+        Check.run("unsent: at positions that are at least sent", OPEN, Check.says(0, 1, 9),
+                "end(0, 2) = 10; say(0, 10) = 10; end(0, 2) = 10;",
+                "lose(0) = 2; lose(0) = 1; arrive(0) = 1; lose(0) = 0; say(0, 11) = 11; say(0, 12) = 12; end(0, 2) = 10; "
+                        + "say(0, 13) = 13;",
                 "end(0, 2) = 10; end(0, 3) = 13;");
         Check.runWith("p2;b32;", "unsent: a whole segment", OPEN, "say(0, 1) = 1; end(0, 2) = 2; say(0, 2) = 2; end(0, 2) = 2;",
                 "say(0, 3) = 3; end(0, 2) = 4;");
@@ -153,23 +195,57 @@ public final class PositionsTest {
         String s = "A range is a maximal sequence of successive held positions";
         String p1 = OPEN + Check.says(0, 1, 6);
         Check.runWith("p1;b20;", s + ": none", p1, "span(1, -1, 0) = 0; arrive(0) = 1; span(1, -1, 0) = 0; end(1, 5) = 2;");
-        Check.runWith("p1;b20;", s + ": one position", p1, "arrive(1) = 1; span(1, -1, 0) = 1; span(1, 0, 0) = 2; span(1, 0, 1) = 3;");
-        Check.runWith("p1;b20;", s + ": two neighbours", p1, "arrive(2) = 1; arrive(1) = 1; span(1, -1, 0) = 1; span(1, 0, 0) = 2; span(1, 0, 1) = 4;");
-        Check.runWith("p1;b20;", s + ": two with a gap", p1, "arrive(3) = 1; arrive(1) = 1; span(1, -1, 0) = 2; span(1, 0, 0) = 2; span(1, 0, 1) = 3;",
+        Check.runWith("p1;b20;", s + ": one position", p1, "arrive(1) = 1; span(1, -1, 0) = 1; span(1, 0, 0) = 2; "
+                + "span(1, 0, 1) = 3;");
+        Check.runWith("p1;b20;", s + ": two neighbours", p1, "arrive(2) = 1; arrive(1) = 1; span(1, -1, 0) = 1; "
+                + "span(1, 0, 0) = 2; span(1, 0, 1) = 4;");
+        Check.runWith("p1;b20;", s + ": two with a gap", p1, "arrive(3) = 1; arrive(1) = 1; span(1, -1, 0) = 2; "
+                + "span(1, 0, 0) = 2; span(1, 0, 1) = 3;",
                 "span(1, 1, 0) = 4; span(1, 1, 1) = 5;");
-        Check.runWith("p1;b20;", s + ": the gap is filled", p1, "arrive(3) = 1; arrive(1) = 1; arrive(1) = 1; span(1, -1, 0) = 1; span(1, 0, 0) = 2;",
+        Check.runWith("p1;b20;", s + ": the gap is filled", p1, "arrive(3) = 1; arrive(1) = 1; arrive(1) = 1; "
+                + "span(1, -1, 0) = 1; span(1, 0, 0) = 2;",
                 "span(1, 0, 1) = 5;");
-        Check.runWith("p1;b20;", s + ": positions after expected", p1, "arrive(3) = 1; arrive(1) = 1; arrive(0) = 1; end(1, 5) = 3; span(1, -1, 0) = 1;",
+        Check.runWith("p1;b20;", s + ": positions after expected", p1, "arrive(3) = 1; arrive(1) = 1; arrive(0) = 1; "
+                + "end(1, 5) = 3; span(1, -1, 0) = 1;",
                 "span(1, 0, 0) = 4; arrive(0) = 1; end(1, 5) = 5; span(1, -1, 0) = 0;");
     }
 
+    private static void marked() {
+        Check.run("marked: positions of which it has learned that the peer holds them", OPEN, Check.says(0, 1, 5),
+                "arrive(1) = 1; known(0, 2) = 0; arrive(1) = 1; known(0, 2) = 1; known(0, 5) = 1; known(0, 6) = 0;");
+        // The positions 2 to 9 have been marked; no position is when 66 to 73 are sent.
+        StreamEnds x = new StreamEnds();
+        Check.write(x, "p8;b32;");
+        Check.play("marked: none of those that come later", x, "lay() = 8;", OPEN, Check.says(0, 1, 9),
+                "arrive(1) = 1 x 2; known(0, 2) = 1; known(0, 9) = 1; known(0, 10) = 0;");
+        allArrive(x);
+        for (int k = 10; k <= 73; k++) {
+            if (k > 10) {
+                Check.same("take", x.take(1) > 0 ? 1 : 0, 1);
+            }
+            Check.same("say", x.say(0, k) > 0 ? 1 : 0, 1);
+            if (k < 65) {
+                allArrive(x);
+            }
+        }
+        for (int place = 60; place <= 75; place++) {
+            Check.same("marked: known(0, " + place + ")", x.known(0, place), 0);
+        }
+        Check.same("the positions have been sent", x.end(0, 2) > 73 ? 1 : 0, 1);
+    }
+
     private static void window() {
-        Check.run("The window is limit - expected", OPEN, "letter(0, 4) = -1; say(0, 1) = 1; letter(0, 4) = 12; arrive(0) = 1; letter(0, 4) = 11;");
-        Check.run("The window is limit - expected: FIN takes room", OPEN, "leave(0) = 5; arrive(0) = 1; end(1, 5) = 2; end(1, 7) = 13; letter(0, 4) = 11;");
-        Check.run("The window is limit - expected: held positions take none", OPEN, Check.says(0, 1, 5), "arrive(1) = 1; letter(1, 4) = 12;");
-        Check.runWith("p1;b2;", "a window of 0", OPEN, "say(0, 1) = 1; say(0, 2) = 2; arrive(0) = 1 x 2; letter(0, 4) = 1; letter(1, 4) = 0;",
+        Check.run("The window is limit - expected", OPEN, "letter(0, 4) = -1; say(0, 1) = 1; letter(0, 4) = 12; arrive(0) = 1; "
+                + "letter(0, 4) = 11;");
+        Check.run("The window is limit - expected: FIN takes room", OPEN, "leave(0) = 5; arrive(0) = 1; end(1, 5) = 2; "
+                + "end(1, 7) = 13; letter(0, 4) = 11;");
+        Check.run("The window is limit - expected: held positions take none", OPEN, Check.says(0, 1, 5),
+                "arrive(1) = 1; letter(1, 4) = 12;");
+        Check.runWith("p1;b2;", "a window of 0", OPEN, "say(0, 1) = 1; say(0, 2) = 2; arrive(0) = 1 x 2; letter(0, 4) = 1; "
+                + "letter(1, 4) = 0;",
                 "end(1, 5) = 3; end(1, 7) = 3;");
-        Check.runWith("p1;b2;", "a window of 0 by FIN", OPEN, "say(0, 1) = 1; leave(0) = 5; arrive(0) = 1 x 2; letter(0, 4) = 1; letter(1, 4) = 0;",
+        Check.runWith("p1;b2;", "a window of 0 by FIN", OPEN, "say(0, 1) = 1; leave(0) = 5; arrive(0) = 1 x 2; "
+                + "letter(0, 4) = 1; letter(1, 4) = 0;",
                 "end(1, 5) = 3; end(1, 7) = 3; end(1, 0) = 7;");
     }
 
@@ -180,37 +256,50 @@ public final class PositionsTest {
         for (int what = 0; what < values.length; what++) {
             calls.append("end(").append(e).append(", ").append(what).append(") = ").append(values[what]).append("; ");
         }
-        return calls + "sample(" + e + ", 0) = -4; span(" + e + ", -1, 0) = 0; known(" + e + ", 0) = 0; known(" + e + ", 1) = 0;";
+        return calls + "sample(" + e + ", 0) = -4; span(" + e + ", -1, 0) = 0; known(" + e + ", 0) = 0; known(" + e
+                + ", 1) = 0;";
     }
 
     private static void valuesAtTheStart() {
         Check.run("at the start: a new object", start(0, 0, 13), start(1, 0, 13));
         Check.runWith("b32;", "at the start: (buffer size) + 1", start(0, 0, 33), start(1, 0, 33));
         Check.runWith("p1;b2;", "at the start: (buffer size) + 1", start(0, 0, 3), start(1, 0, 3));
-        String used = OPEN + Check.says(0, 1, 5) + "say(1, 1) = 1; cry(0) = 6; cry(1) = 2; pass(3) = 3; arrive(3) = 1; arrive(1) = 1;"
+        String used = OPEN + Check.says(0, 1, 5) + "say(1, 1) = 1; cry(0) = 6; cry(1) = 2; pass(3) = 3; arrive(3) = 1; "
+                + "arrive(1) = 1;"
                 + "arrive(1) = 1; quit(0) = 4; quit(1) = 4;";
-        Check.run("The start is when the endpoint is opened", used, "end(0, 14) = 6; end(0, 8) = 6; end(1, 5) = 6; open(0, 0) = 7;",
+        Check.run("The start is when the endpoint is opened", used, "end(0, 14) = 6; end(0, 8) = 6; end(1, 5) = 6; "
+                + "open(0, 0) = 7;",
                 start(0, 1, 13), "end(1, 5) = 6; end(1, 0) = 0;");
-        Check.run("The start is when the endpoint is opened", used, "end(1, 14) = 2; open(1, 0) = 7;", start(1, 1, 13), "end(0, 14) = 6;");
-        Check.run("The start is when the configuration is set up", "write(98) = 1; write(57) = 2; write(59) = 3;", used, "lay() = 4;",
+        Check.run("The start is when the endpoint is opened", used, "end(1, 14) = 2; open(1, 0) = 7;", start(1, 1, 13),
+                "end(0, 14) = 6;");
+        Check.run("The start is when the configuration is set up", "write(98) = 1; write(57) = 2; write(59) = 3;", used,
+                "lay() = 4;",
                 start(0, 0, 10), start(1, 0, 10));
-        Check.run("The start is when the endpoint is opened, not when it is CLOSED", used, "end(0, 2) = 6; end(0, 5) = 2; sample(0, 0) = 1;");
+        Check.run("The start is when the endpoint is opened, not when it is CLOSED", used,
+                "end(0, 2) = 6; end(0, 5) = 2; sample(0, 0) = 1;");
     }
 
     private static void closedKeepsItsValues() {
         String s = "An endpoint that becomes CLOSED keeps all its values, except that its timer and its wait timer become 0: ";
-        String kept = "end(0, 1) = 1; end(0, 2) = 2; end(0, 3) = 13; end(0, 4) = 2; end(0, 5) = 2; end(0, 6) = 1; end(0, 7) = 13;"
-                + "end(0, 8) = 3; end(0, 9) = 8; end(0, 10) = 2; end(0, 14) = 2; end(0, 16) = 1; sample(0, 0) = 1; end(0, 11) = 0; end(0, 12) = 0;";
-        String busy = OPEN + "say(0, 1) = 1; cry(0) = 2; say(0, 2) = 2; say(1, 3) = 1; arrive(1) = 1; lose(1) = 1; end(0, 11) = 3;";
+        String kept = "end(0, 1) = 1; end(0, 2) = 2; end(0, 3) = 13; end(0, 4) = 2; end(0, 5) = 2; end(0, 6) = 1; "
+                + "end(0, 7) = 13;"
+                + "end(0, 8) = 3; end(0, 9) = 8; end(0, 10) = 2; end(0, 14) = 2; end(0, 16) = 1; sample(0, 0) = 1; "
+                        + "end(0, 11) = 0; end(0, 12) = 0;";
+        String busy = OPEN + "say(0, 1) = 1; cry(0) = 2; say(0, 2) = 2; say(1, 3) = 1; arrive(1) = 1; lose(1) = 1; "
+                + "end(0, 11) = 3;";
         Check.run(s + "quit()", busy, "quit(0) = 4; end(0, 0) = 0;", kept);
         Check.run(s + "an RST", busy, "quit(1) = 4; arrive(1) = 1; end(0, 0) = 0;", kept);
-        Check.run(s + "leave() in SYN_SENT", "open(0, 1) = 1; say(0, 1) = 1; pass(1) = 1; leave(0) = 0; end(0, 2) = 1; end(0, 4) = 1; end(0, 16) = 0;",
+        Check.run(s + "leave() in SYN_SENT", "open(0, 1) = 1; say(0, 1) = 1; pass(1) = 1; leave(0) = 0; end(0, 2) = 1; "
+                + "end(0, 4) = 1; end(0, 16) = 0;",
                 "end(0, 11) = 0;");
-        Check.run(s + "quit() in TIME_WAIT", States.RUNS[10], "end(0, 12) = 10; quit(0) = 10; end(0, 12) = 0; end(0, 17) = 1; end(0, 13) = 1;",
+        Check.run(s + "quit() in TIME_WAIT", States.RUNS[10], "end(0, 12) = 10; quit(0) = 10; end(0, 12) = 0; end(0, 17) = 1; "
+                + "end(0, 13) = 1;",
                 "end(0, 1) = 2; end(0, 5) = 2;");
-        Check.run(s + "the end of TIME_WAIT", States.RUNS[10], "pass(10) = 10; end(0, 0) = 0; end(0, 12) = 0; end(0, 17) = 1; end(0, 13) = 1;",
+        Check.run(s + "the end of TIME_WAIT", States.RUNS[10], "pass(10) = 10; end(0, 0) = 0; end(0, 12) = 0; end(0, 17) = 1; "
+                + "end(0, 13) = 1;",
                 "end(0, 1) = 2; end(0, 5) = 2;");
-        Check.run(s + "the acknowledgment of FIN", States.RUNS[9], "arrive(1) = 1; arrive(1) = 1; end(0, 0) = 0; end(0, 1) = 2; end(0, 5) = 2;",
+        Check.run(s + "the acknowledgment of FIN", States.RUNS[9], "arrive(1) = 1; arrive(1) = 1; end(0, 0) = 0; "
+                + "end(0, 1) = 2; end(0, 5) = 2;",
                 "end(0, 17) = 1; end(0, 13) = 1; end(0, 11) = 0; end(0, 12) = 0;");
     }
 }
