@@ -46,6 +46,10 @@ public final class SegmentsTest {
                 + "span(1, -1, 0) = 3;",
                 "letter(7, 6) = 2; letter(7, 8) = 4; letter(7, 9) = 5; letter(7, 10) = 6; letter(7, 11) = 7; arrive(7) = 1;",
                 "known(0, 3) = 0; known(0, 4) = 1; known(0, 5) = 0; known(0, 6) = 1; known(0, 7) = 0; known(0, 8) = 0;");
+        Check.run("0 to 2 ranges: none in the next segment", OPEN, Check.says(0, 1, 5),
+                "arrive(1) = 1; letter(1, 6) = 1; lose(1) = 1; arrive(0) = 1;",
+                "letter(0, 6) = 0; letter(0, 8) = -4; letter(0, 3) = 0; lose(0) = 0; say(1, 1) = 1; letter(0, 6) = 0; "
+                        + "letter(0, 8) = -4;");
         Check.run("a segment with ACK has ranges, also a data segment", OPEN, Check.says(0, 1, 5),
                 "arrive(1) = 1; say(1, 9) = 1; letter(2, 5) = 1; letter(2, 6) = 1;",
                 "letter(2, 8) = 252; letter(2, 9) = 0; lose(1) = 2; arrive(1) = 1; known(0, 1) = 0; known(0, 2) = 1; "

@@ -51,10 +51,26 @@ final class States {
     static final String HOLDING = OPEN + Check.says(0, 1, 13) + "arrive(2) = 1 x 2; lose(1) = 1; pass(3) = 3;"
             + "arrive(1) = 1; arrive(0) = 0; take(1) = 1;";
 
+    /** Endpoint 0 knows that all it has sent and that is not acknowledged, 2 to 4, is held; set up by p1;b20;. */
+    static final String ALL_MARKED = OPEN + Check.says(0, 1, 3) + "arrive(0) = 1; lose(1) = 2; lose(0) = 1;"
+            + "quit(0) = 4; quit(1) = 4; lose(2) = 2; lose(1) = 1;" + OPEN_AGAIN + Check.says(0, 1, 3)
+            + "arrive(2) = 1 x 2; arrive(3) = 1; arrive(0) = 1; end(0, 1) = 2; end(0, 16) = -4; say(0, 4) = 3;"
+            + "arrive(2) = 1 x 2; known(0, 2) = 1; known(0, 3) = 1; known(0, 4) = 1; end(0, 2) = 5; end(0, 16) = 4;"
+            + "end(0, 11) = 3; count(5) = 2;";
+
     /** The text has 200 characters and a fault. */
     static final String FULL_TEXT = "write(112) = 1;" + fullText();
 
     private States() {
+    }
+
+    /** Writes a text and sets it up. */
+    static String laid(String text, int segmentSize) {
+        StringBuilder calls = new StringBuilder();
+        for (int k = 0; k < text.length(); k++) {
+            calls.append("write(").append((int) text.charAt(k)).append(") = ").append(k + 1).append("; ");
+        }
+        return calls + "lay() = " + segmentSize + "; ";
     }
 
     /** Duplicates the first segment until the wire has 20. */

@@ -120,18 +120,10 @@ public final class TicksTest {
     }
 
     private static void nothingToSend() {
-        // An old acknowledgment of byte 1 arrives when all bytes from 2 on are known to be held.
-        String oldAck = OPEN + Check.says(0, 1, 3) + "arrive(0) = 1; lose(1) = 2; lose(0) = 1; quit(0) = 4; quit(1) = 4; "
-                + "lose(2) = 2; lose(1) = 1;"
-                + States.OPEN_AGAIN;
-        String allMarked = oldAck + Check.says(0, 1, 3) + "arrive(2) = 1 x 2; arrive(3) = 1; arrive(0) = 1; end(0, 1) = 2; "
-                + "end(0, 16) = -4; say(0, 4) = 3;"
-                + "arrive(2) = 1 x 2; known(0, 2) = 1; known(0, 3) = 1; known(0, 4) = 1; end(0, 2) = 5; end(0, 16) = 4; "
-                        + "end(0, 11) = 3; count(5) = 2;";
-        Check.runWith("p1;b20;f0,0;", "If there is no such x, nothing is sent, and the timed position stays", allMarked,
+        Check.runWith("p1;b20;f0,0;", "If there is no such x, nothing is sent, and the timed position stays", States.ALL_MARKED,
                 "pass(3) = 3; count(5) = 2; count(7) = 19;",
                 "end(0, 16) = 4; count(9) = 0;");
-        Check.runWith("p1;b20;f0,0;", "In both cases the timeout then doubles, and the timer is adjusted", allMarked,
+        Check.runWith("p1;b20;f0,0;", "In both cases the timeout then doubles, and the timer is adjusted", States.ALL_MARKED,
                 "pass(2) = 2; end(0, 8) = 3; end(0, 11) = 1; pass(1) = 3;",
                 "end(0, 8) = 6; end(0, 11) = 6;");
     }

@@ -73,8 +73,8 @@ public final class WireBoundsTest {
                 + "count(8) = 0; count(9) = 0; end(0, 16) = 1; end(0, 11) = 2; end(0, 2) = 2;");
         Check.run("twice: 19 segments become 20, and then FULL", "open(0, 1) = 1;", States.fill(1),
                 "twice(0) = -3; count(8) = 0; lose(5) = 19; twice(18) = 20; twice(18) = -3;");
-        Check.run("twice: a copy of it, with its urgent number", OPEN, Check.says(0, 1, 5),
-                "cry(0) = 6; lose(0) = 1; pass(3) = 3; letter(1, 7) = 0; twice(1) = 3; letter(2, 7) = 0; letter(2, 5) = 4; "
+        Check.run("twice: a copy of it, with its urgent number", OPEN, Check.says(0, 1, 6),
+                "cry(0) = 7; lose(0) = 1; pass(3) = 3; letter(1, 7) = 1; twice(1) = 3; letter(2, 7) = 1; letter(2, 5) = 4; "
                 + "byteOf(2, 3) = 4;",
                 "letter(2, 1) = 4; letter(2, 3) = 101; letter(2, 4) = 12; letter(2, 6) = 0;");
         Check.runWith("p1;b20;f0,0;", "twice: a copy of it, with its ranges", OPEN, Check.says(0, 1, 8),
@@ -279,15 +279,19 @@ public final class WireBoundsTest {
         OPEN + "say(0, 1) = 1; arrive(0) = 1; take(1) = 1; arrive(0) = 1;" + Check.says(0, 1, 20) + "lose(0) = 2; pass(1) = 1;",
         OPEN + "say(0, 1) = 1; pass(2) = 2; arrive(0) = 1 x 2; say(0, 2) = 1; pass(3) = 5; lose(0) = 0; say(0, 3) = 2;",
         OPEN + Check.says(1, 1, 3) + "leave(1) = 5; arrive(1) = 1; end(0, 17) = 4; lose(0) = 1; pass(1) = 1; leave(0) = 5;",
-        OPEN + Check.says(0, 1, 30) + "leave(0) = 4; arrive(0) = 1 x 4; take(1) = 1; take(1) = 2; take(1) = 3; take(1) = 4;"};
+        OPEN + Check.says(0, 1, 30) + "leave(0) = 4; arrive(0) = 1 x 4; take(1) = 1; take(1) = 2; take(1) = 3; take(1) = 4;",
+        OPEN + Check.says(0, 1, 14) + "arrive(0) = 1 x 6; end(0, 1) = 10; end(0, 2) = 10; end(0, 3) = 13;",
+        "open(1, 0) = 0; open(0, 1) = 1; arrive(0) = 1; pass(5) = 5; arrive(0) = 1 x 2;" + Check.says(0, 1, 30),
+        OPEN + "pass(20) = 20;" + Check.says(0, 1, 30),
+        States.laid("p1;b20;", 1) + States.ALL_MARKED + "lose(1) = 1; lose(0) = 0;",
+        States.laid("p8;b16;f255,3;l20;", 8) + OPEN + Check.says(0, 1, 30) + "leave(1) = 5; arrive(0) = 1; pass(1) = 1;"};
 
     private static void calmIsPlayed(String run) {
-        StreamEnds x = new StreamEnds();
-        Check.play("calm is played", x, run);
         int[] told = new int[6];
         for (int what = 0; what <= 5; what++) {
-            told[what] = x.calm(what);
+            told[what] = played(run).calm(what);
         }
+        StreamEnds x = played(run);
         int sent = x.count(7);
         int ticks = 0;
         while (ticks < 300 && (x.count(5) > 0 || x.end(0, 11) != 0 || x.end(1, 11) != 0 || x.end(0, 0) == 10 || x.end(1, 0) == 10)) {
@@ -302,6 +306,12 @@ public final class WireBoundsTest {
         for (int what = 0; what <= 5; what++) {
             Check.same("calm(" + what + ") after " + run, told[what], due[what]);
         }
+    }
+
+    private static StreamEnds played(String run) {
+        StreamEnds x = new StreamEnds();
+        Check.play("calm is played", x, run);
+        return x;
     }
 
     private static int taken(StreamEnds x, int e) {
