@@ -12,7 +12,9 @@ public final class ArrivingTest {
         causes();
         answersToWhatDoesNotFit();
         resets();
+        withoutAck();
         ackNumbers();
+        ackNumberZero();
         acknowledgment();
         marks();
         edge();
@@ -210,6 +212,24 @@ public final class ArrivingTest {
         Check.run("an RST that does not fit: p is expected - 1", OPEN, "quit(1) = 4; quit(0) = 4; lose(1) = 1;",
                 States.OPEN_AGAIN, "say(1, 1) = 1; arrive(1) = 1; arrive(0) = 0;",
                 "cause(0) = 6; cause(1) = 9; end(0, 0) = 4;");
+    }
+
+    /** A SYN without ACK can fit only where its number is taken for that of position 256. */
+    private static void withoutAck() {
+        Check.run("if it has no ACK, it is dropped with reason 10", States.FAR, "quit(0) = 4; lose(1) = 1; lose(0) = 0; "
+                + "open(0, 1) = 1;",
+                "letter(0, 1) = 1; letter(0, 2) = 0; arrive(0) = 0; cause(0) = 10; cause(1) = -4; end(1, 0) = 4; "
+                        + "count(5) = 0;");
+        Check.run("if it has no ACK, but RST, it is accepted", States.FAR, "quit(0) = 4; lose(0) = 1; letter(0, 1) = 8; "
+                + "arrive(0) = 1;",
+                "cause(0) = -4; end(1, 0) = 0;");
+    }
+
+    /** The ack number of position 256, which is that of position 0 in a new connection. */
+    private static void ackNumberZero() {
+        Check.run("In state SYN_RECEIVED, if q is not from 1 to sent: 0", States.FAR, Check.says(0, 1, 30),
+                "leave(0) = 4; arrive(0) = 1 x 6; letter(2, 3) = 0; quit(0) = 5; quit(1) = 7; open(0, 0) = 5; open(1, 1) = 6;",
+                "arrive(5) = 1; arrive(2) = 0; cause(0) = 5; end(0, 0) = 3;");
     }
 
     private static void ackNumbers() {

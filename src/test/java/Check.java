@@ -8,13 +8,21 @@ import java.util.Arrays;
 final class Check {
     private static int wrong = 0;
     private static int calls = 0;
+    private static int callsOfRun = 0;
 
     private Check() {
     }
 
     /** A run that begins with the configuration of the document. */
     static void run(String title, String... rows) {
-        play(title, new StreamEnds(), rows);
+        callsOfRun = 0;
+        runOn(title, new StreamEnds(), rows);
+    }
+
+    /** What an object answers after 512 calls is free, so a run that asks for more is a wrong one. */
+    private static void runOn(String title, StreamEnds x, String... rows) {
+        play(title, x, rows);
+        same(title + ": calls of the run, " + callsOfRun, callsOfRun <= 512 ? 1 : 0, 1);
     }
 
     /** A run that begins when this text has been written and set up. */
@@ -22,7 +30,8 @@ final class Check {
         StreamEnds x = new StreamEnds();
         write(x, text);
         same(title + ": lay() of " + text, x.lay() > 0 ? 1 : 0, 1);
-        play(title, x, rows);
+        callsOfRun = text.length() + 1;
+        runOn(title, x, rows);
     }
 
     static void write(StreamEnds x, String text) {
@@ -64,6 +73,7 @@ final class Check {
         String[] due = sides[1].trim().split(" x ");
         int times = due.length > 1 ? Integer.parseInt(due[1].trim()) : 1;
         for (int k = 0; k < times; k++) {
+            callsOfRun++;
             same(title + ": " + call, ask(x, call), Integer.parseInt(due[0].trim()));
         }
     }

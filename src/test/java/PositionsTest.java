@@ -5,6 +5,7 @@ public final class PositionsTest {
     public static void main(String[] args) {
         statesAndTime();
         numbersWrapAround();
+        numbersWrapAroundTwice();
         otherNumbersWrapAround();
         numberNearPosition();
         ackNumberNearPosition();
@@ -47,6 +48,11 @@ public final class PositionsTest {
         Check.runWith("f254,0;", s + ": FIN at 255", OPEN, "leave(0) = 5; letter(0, 2) = 255; arrive(0) = 1; "
                 + "letter(0, 3) = 0;");
         Check.runWith("f255,0;", s + ": FIN at 0", OPEN, "leave(0) = 5; letter(0, 2) = 0; arrive(0) = 1; letter(0, 3) = 1;");
+    }
+
+    private static void numbersWrapAroundTwice() {
+        Check.run("the number of position 256 is that of position 0", States.FAR, Check.says(0, 1, 31), "arrive(0) = 1 x 9;",
+                "say(0, 7) = 1; letter(0, 2) = 0; byteOf(0, 0) = 7; arrive(0) = 1; letter(0, 3) = 1; end(1, 5) = 257;");
     }
 
     private static void otherNumbersWrapAround() {

@@ -58,10 +58,24 @@ final class States {
             + "arrive(2) = 1 x 2; known(0, 2) = 1; known(0, 3) = 1; known(0, 4) = 1; end(0, 2) = 5; end(0, 16) = 4;"
             + "end(0, 11) = 3; count(5) = 2;";
 
+    /**
+     * 224 bytes have come to endpoint 1, and all of them are taken, by 465 calls: it expects position
+     * 225 and has room up to 256. On the wire is what it tells of that.
+     */
+    static final String FAR = laid("p8;b32;", 8) + "open(1, 0) = 0; open(0, 1) = 1;" + batch().repeat(7);
+
     /** The text has 200 characters and a fault. */
     static final String FULL_TEXT = "write(112) = 1;" + fullText();
 
     private States() {
+    }
+
+    private static String batch() {
+        StringBuilder calls = new StringBuilder(Check.says(0, 1, 32) + "drive(0, 60) = 0; ");
+        for (int k = 1; k <= 32; k++) {
+            calls.append("take(1) = ").append(k).append("; ");
+        }
+        return calls.toString();
     }
 
     /** Writes a text and sets it up. */
