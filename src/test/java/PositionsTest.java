@@ -15,6 +15,7 @@ public final class PositionsTest {
         pendingBytes();
         unsentBytes();
         ranges();
+        expectedIsInNoRange();
         marked();
         window();
         valuesAtTheStart();
@@ -214,6 +215,15 @@ public final class PositionsTest {
         Check.runWith("p1;b20;", s + ": positions after expected", p1, "arrive(3) = 1; arrive(1) = 1; arrive(0) = 1; "
                 + "end(1, 5) = 3; span(1, -1, 0) = 1;",
                 "span(1, 0, 0) = 4; arrive(0) = 1; end(1, 5) = 5; span(1, -1, 0) = 0;");
+    }
+
+    /** Bytes of an old connection are held behind FIN, so that expected steps onto one of them. */
+    private static void expectedIsInNoRange() {
+        Check.run("held: positions after expected, not expected itself", OPEN, Check.says(0, 1, 5),
+                "quit(0) = 4; quit(1) = 4; lose(3) = 3; lose(2) = 2; lose(0) = 1;", States.OPEN_AGAIN,
+                "arrive(0) = 1; lose(0) = 0; span(1, 0, 0) = 2; span(1, 0, 1) = 6; leave(0) = 5; arrive(0) = 1; end(1, 17) = 1;",
+                "end(1, 5) = 2; end(1, 0) = 7; span(1, -1, 0) = 1; span(1, 0, 0) = 3; span(1, 0, 1) = 6; letter(0, 6) = 1;",
+                "letter(0, 8) = 253; letter(0, 9) = 0; take(1) = -4;");
     }
 
     private static void marked() {
