@@ -34,6 +34,11 @@ final class Check {
         runOn(title, x, rows);
     }
 
+    /** How many calls the last run had. */
+    static int callsOfRun() {
+        return callsOfRun;
+    }
+
     static void write(StreamEnds x, String text) {
         for (int i = 0; i < text.length(); i++) {
             same("write " + text, x.write(text.charAt(i)) > 0 ? 1 : 0, 1);

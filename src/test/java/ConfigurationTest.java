@@ -203,6 +203,10 @@ public final class ConfigurationTest {
         Check.run("At first the configuration is that of the text p4;b12;f250,100;l5;",
                 "count(0) = 4; count(1) = 12; count(2) = 250; count(3) = 100; count(4) = 5; end(0, 7) = 13; end(1, 7) = 13;");
         Check.run("(and the text itself is empty)", "count(11) = 0; fault() = -4; wipe() = 0; write(112) = 1;");
+        StreamEnds x = new StreamEnds();
+        Check.write(x, "p4;b12;f250,100;l5;");
+        Check.play("as after lay(), and an empty text", x, States.OPEN, "say(0, 1) = 1; pass(9) = 9; lay() = 4; wipe() = 19;");
+        Check.same("as after lay(), and an empty text", Look.at(x).equals(Look.at(new StreamEnds())) ? 1 : 0, 1);
         Check.run("as after lay()", "write(112) = 1; write(52) = 2; write(59) = 3; lay() = 4; count(0) = 4; count(1) = 16; "
                 + "count(2) = 0; count(3) = 0; count(4) = 5;");
     }

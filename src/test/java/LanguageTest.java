@@ -1,240 +1,131 @@
-import com.sun.source.tree.AssertTree;
-import com.sun.source.tree.BlockTree;
-import com.sun.source.tree.CatchTree;
-import com.sun.source.tree.ClassTree;
-import com.sun.source.tree.CompilationUnitTree;
-import com.sun.source.tree.LambdaExpressionTree;
-import com.sun.source.tree.MemberReferenceTree;
-import com.sun.source.tree.MethodInvocationTree;
-import com.sun.source.tree.MethodTree;
-import com.sun.source.tree.NewArrayTree;
-import com.sun.source.tree.NewClassTree;
-import com.sun.source.tree.SynchronizedTree;
-import com.sun.source.tree.ThrowTree;
-import com.sun.source.tree.Tree;
-import com.sun.source.tree.TryTree;
-import com.sun.source.tree.VariableTree;
-import com.sun.source.util.JavacTask;
-import com.sun.source.util.SourcePositions;
-import com.sun.source.util.TreePath;
-import com.sun.source.util.TreePathScanner;
-import com.sun.source.util.Trees;
+import java.io.IOException;
+import java.net.URI;
+import java.nio.file.Files;
 import java.nio.file.Path;
-import java.util.HashMap;
-import java.util.HashSet;
-import java.util.List;
-import java.util.Map;
-import java.util.Set;
-import java.util.TreeSet;
-import javax.lang.model.element.Element;
-import javax.lang.model.element.ElementKind;
-import javax.lang.model.element.Modifier;
-import javax.tools.JavaCompiler;
-import javax.tools.StandardJavaFileManager;
-import javax.tools.ToolProvider;
+import javax.tools.JavaFileObject;
+import javax.tools.SimpleJavaFileObject;
 
-/** The rules of LANGUAGE.md that a program can look for in src/main/java/StreamEnds.java. */
+/** src/main/java/StreamEnds.java keeps to LANGUAGE.md; and what Language looks for, it finds where it is broken. */
 public final class LanguageTest {
     private static final Path MAIN = Path.of("src/main/java/StreamEnds.java");
-    private static final Set<String> LIBRARY = Set.of("Math.max", "Math.min", "Math.abs", "System.arraycopy",
-            "Object.<init>", "Enum.<init>");
 
-    private final Map<Element, Set<Element>> callees = new HashMap<>();
-    private final Set<String> faults = new TreeSet<>();
-    private Trees trees;
-    private CompilationUnitTree unit;
-    private int classes = 0;
-
-    public static void main(String[] args) throws Exception {
-        LanguageTest test = new LanguageTest();
-        test.look();
-        for (String fault : test.faults) {
-            Check.same(fault, 0, 1);
+    public static void main(String[] args) throws IOException {
+        Language main = new Language(source(Files.readString(MAIN)));
+        for (String fault : main.faults) {
+            Check.same("rule " + fault, 0, 1);
         }
-        Check.same("classes in the file", test.classes <= 12 ? 1 : 0, 1);
+        System.out.println("deepest calls: " + main.deepest + ", classes: " + main.classes);
+        signsAreAscii();
+        aSourceWithoutFault();
+        brokenRules();
         Check.end("LanguageTest");
     }
 
-    private void look() throws Exception {
-        JavaCompiler compiler = ToolProvider.getSystemJavaCompiler();
-        try (StandardJavaFileManager files = compiler.getStandardFileManager(null, null, null)) {
-            JavacTask task = (JavacTask) compiler.getTask(null, files, null, null, null, files.getJavaFileObjects(MAIN));
-            unit = task.parse().iterator().next();
-            task.analyze();
-            trees = Trees.instance(task);
-            new Scanner().scan(unit, null);
-        }
-        int deepest = 0;
-        for (Element method : callees.keySet()) {
-            deepest = Math.max(deepest, depth(method, new HashSet<>()));
-        }
-        System.out.println("deepest calls: " + deepest + ", classes: " + classes);
-        Check.same("calls go at most eight deep, found " + deepest, deepest <= 8 ? 1 : 0, 1);
+    private static JavaFileObject source(String text) {
+        return new SimpleJavaFileObject(URI.create("string:///StreamEnds.java"), JavaFileObject.Kind.SOURCE) {
+            @Override
+            public CharSequence getCharContent(boolean ignoreEncodingErrors) {
+                return text;
+            }
+        };
     }
 
-    private int depth(Element method, Set<Element> above) {
-        if (!above.add(method)) {
-            faults.add("recursion at " + method);
-            return 0;
-        }
-        int most = 0;
-        for (Element callee : callees.getOrDefault(method, Set.of())) {
-            most = Math.max(most, depth(callee, above));
-        }
-        above.remove(method);
-        return most + 1;
-    }
-
-    private final class Scanner extends TreePathScanner<Void, Element> {
-        private void fault(String rule, Tree tree) {
-            long at = trees.getSourcePositions().getStartPosition(unit, tree);
-            faults.add("line " + unit.getLineMap().getLineNumber(at) + ": " + rule);
-        }
-
-        private Element element() {
-            return trees.getElement(getCurrentPath());
-        }
-
-        @Override
-        public Void visitClass(ClassTree tree, Element method) {
-            classes++;
-            Element self = element();
-            boolean inner = self.getEnclosingElement().getKind() == ElementKind.CLASS;
-            if (inner && !self.getModifiers().contains(Modifier.STATIC)) {
-                fault("2: an inner class is not static", tree);
+    private static void signsAreAscii() throws IOException {
+        for (byte sign : Files.readAllBytes(MAIN)) {
+            if (sign < 1) {
+                Check.same("rule 4: a sign that is not 1 to 127", sign, 1);
             }
-            int fields = 0;
-            for (Tree member : tree.getMembers()) {
-                if (member instanceof BlockTree) {
-                    fault("5: an initialiser block", member);
-                }
-                if (member instanceof VariableTree field) {
-                    Set<Modifier> how = field.getModifiers().getFlags();
-                    fields += how.contains(Modifier.STATIC) ? 0 : 1;
-                    if (how.contains(Modifier.STATIC) && !how.contains(Modifier.FINAL)) {
-                        fault("5: static state", member);
-                    }
-                    if (!inner && !how.contains(Modifier.PRIVATE) && !how.contains(Modifier.PUBLIC)) {
-                        fault("1: a visible field", member);
-                    }
-                }
-                if (member instanceof MethodTree own && !inner) {
-                    Set<Modifier> how = own.getModifiers().getFlags();
-                    if (!how.contains(Modifier.PRIVATE) && !how.contains(Modifier.PUBLIC)) {
-                        fault("1: a visible method", member);
-                    }
-                }
-            }
-            if (fields > 20) {
-                fault("11: more than twenty fields", tree);
-            }
-            return super.visitClass(tree, method);
-        }
-
-        @Override
-        public Void visitMethod(MethodTree tree, Element method) {
-            Element self = element();
-            callees.computeIfAbsent(self, k -> new HashSet<>());
-            SourcePositions places = trees.getSourcePositions();
-            long first = unit.getLineMap().getLineNumber(places.getStartPosition(unit, tree));
-            long last = unit.getLineMap().getLineNumber(places.getEndPosition(unit, tree));
-            boolean made = first == last && tree.getName().contentEquals("<init>");
-            if (!made && last - first + 1 > 60) {
-                fault("11: a method of more than sixty lines", tree);
-            }
-            if (tree.getParameters().size() > 7) {
-                fault("11: more than seven parameters", tree);
-            }
-            if (!tree.getThrows().isEmpty()) {
-                fault("6: throws", tree);
-            }
-            String name = tree.getName().toString();
-            if (!self.getModifiers().contains(Modifier.PUBLIC) && FACE.contains(name)) {
-                fault("1: a method with the name of a public one, " + name, tree);
-            }
-            return super.visitMethod(tree, self);
-        }
-
-        @Override
-        public Void visitMethodInvocation(MethodInvocationTree tree, Element method) {
-            Element callee = trees.getElement(new TreePath(getCurrentPath(), tree.getMethodSelect()));
-            note(method, callee, tree);
-            return super.visitMethodInvocation(tree, method);
-        }
-
-        @Override
-        public Void visitNewClass(NewClassTree tree, Element method) {
-            if (method != null && !method.getSimpleName().contentEquals("<init>")) {
-                fault("12: a method makes an object", tree);
-            }
-            note(method, element(), tree);
-            return super.visitNewClass(tree, method);
-        }
-
-        @Override
-        public Void visitNewArray(NewArrayTree tree, Element method) {
-            if (method != null) {
-                fault("12: a method makes an array", tree);
-            }
-            return super.visitNewArray(tree, method);
-        }
-
-        private void note(Element method, Element callee, Tree tree) {
-            Element owner = callee.getEnclosingElement();
-            String name = owner.getSimpleName() + "." + callee.getSimpleName();
-            boolean own = trees.getTree(callee) != null || owner.toString().startsWith("StreamEnds");
-            if (!own && !LIBRARY.contains(name)) {
-                fault("4: the library's " + name, tree);
-            }
-            if (method != null && own) {
-                callees.computeIfAbsent(method, k -> new HashSet<>()).add(callee);
-            }
-        }
-
-        @Override
-        public Void visitThrow(ThrowTree tree, Element method) {
-            fault("6: throw", tree);
-            return super.visitThrow(tree, method);
-        }
-
-        @Override
-        public Void visitTry(TryTree tree, Element method) {
-            fault("6: try", tree);
-            return super.visitTry(tree, method);
-        }
-
-        @Override
-        public Void visitCatch(CatchTree tree, Element method) {
-            fault("6: catch", tree);
-            return super.visitCatch(tree, method);
-        }
-
-        @Override
-        public Void visitAssert(AssertTree tree, Element method) {
-            fault("6: assert", tree);
-            return super.visitAssert(tree, method);
-        }
-
-        @Override
-        public Void visitSynchronized(SynchronizedTree tree, Element method) {
-            fault("6: synchronized", tree);
-            return super.visitSynchronized(tree, method);
-        }
-
-        @Override
-        public Void visitLambdaExpression(LambdaExpressionTree tree, Element method) {
-            fault("2: a lambda", tree);
-            return super.visitLambdaExpression(tree, method);
-        }
-
-        @Override
-        public Void visitMemberReference(MemberReferenceTree tree, Element method) {
-            fault("2: a method reference", tree);
-            return super.visitMemberReference(tree, method);
         }
     }
 
-    private static final Set<String> FACE = new HashSet<>(List.of("write", "wipe", "fault", "lay", "open", "say", "cry",
-            "leave", "quit", "take", "arrive", "lose", "twice", "pass", "drive", "calm", "end", "sample", "span", "known",
-            "letter", "byteOf", "cause", "count"));
+    private static void aSourceWithoutFault() throws IOException {
+        Language clean = new Language(source(inClass("private int a; private static final int B = 1; public int wipe() { return a + B; }")));
+        Check.same("a source without fault: " + clean.faults, clean.faults.size(), 0);
+    }
+
+    private static String inClass(String members) {
+        return "public final class StreamEnds { " + members + " }";
+    }
+
+    private static void broken(String fault, String... sources) throws IOException {
+        for (String text : sources) {
+            Language found = new Language(source(text));
+            boolean told = false;
+            boolean compiles = true;
+            for (String other : found.faults) {
+                told |= other.startsWith(fault);
+                compiles &= !other.startsWith("it does not compile");
+            }
+            Check.same(fault + " is found in " + text + ": " + found.faults, told && compiles ? 1 : 0, 1);
+        }
+    }
+
+    private static void member(String fault, String... members) throws IOException {
+        for (String one : members) {
+            broken(fault, inClass(one));
+        }
+    }
+
+    private static void brokenRules() throws IOException {
+        broken("1: a package line", "package a; " + inClass(""));
+        broken("1: more than one class in the file", inClass("") + " final class Other { }");
+        broken("1: the class is not public and final", "public class StreamEnds { }", "final class StreamEnds { }");
+        member("1: a visible field", "int a;", "public static final int MORE = 1;", "protected int a;");
+        member("1: a visible method", "int more() { return 1; }", "public int more() { return 1; }");
+        member("1: a visible class inside", "public static class A { }", "protected static class A { }");
+        member("1: a method with the name of a public one", "private int wipe() { return 1; }",
+                "private static class A { int lose() { return 1; } }");
+        member("2: an inner class is not static", "private class A { }");
+        member("2: a local or anonymous class", "private void a() { class B { } }", "private Object a = new Object() { };");
+        member("2: a lambda", "private Runnable a = () -> { };");
+        member("2: a method reference", "private Runnable a = StreamEnds::b; private static void b() { }");
+        member("3: the type of a variable", "private Object a;", "private String[] a;", "private int[][][] a;",
+                "private boolean[][] a;", "private java.util.Map<Integer, Integer> a;", "private Long a;");
+        member("3: the type of an answer", "private Object a() { return null; }");
+        broken("4: an import", "import java.util.Random; " + inClass(""));
+        member("4: the library's", "private long a = System.nanoTime();", "private double a = Math.random();",
+                "private int a = Math.addExact(1, 2);", "private int a = new java.util.Random().nextInt();",
+                "private void a() { System.out.println(1); }");
+        member("5: static state", "private static int a;");
+        member("5: a static field of another kind", "private static final StreamEnds A = new StreamEnds();");
+        member("5: an initialiser block", "private static final int A; static { A = 1; }", "private int a; { a = 1; }");
+        member("6: throw", "private void a() { throw new IllegalStateException(); }");
+        member("6: throws", "private void a() throws Exception { }");
+        member("6: try", "private void a() { try { a(); } finally { } }");
+        member("6: catch", "private void a() { try { a(); } catch (RuntimeException e) { } }");
+        member("6: assert", "private void a() { assert true; }");
+        member("6: synchronized", "private void a() { synchronized (this) { } }");
+        member("6: an own equals, hashCode or toString", "public String toString() { return null; }",
+                "private static class A { public int hashCode() { return 1; } }");
+        member("6: == between texts", "private boolean a(String b, String c) { return b == c; }");
+        member("6: a cast between classes", "private String a(Object b) { return (String) b; }");
+        member("8: recursion", "private int a(int n) { return a(n - 1); }",
+                "private int a() { return b(); } private int b() { return a(); }");
+        member("9: a loop without an end", "private void a() { while (true) { } }", "private void a() { for (;;) { } }",
+                "private void a() { do { } while (true); }", "private void a() { for (int i = 0; true; i++) { } }");
+        member("10: texts joined by +", "private String a(int b) { return \"b\" + b; }",
+                "private void a(String b) { b += 1; }");
+        lengths();
+        member("12: a method makes an object", "private void a() { new StreamEnds(); }");
+        member("12: a method makes an array", "private void a() { int[] b = new int[3]; }");
+        member("12: an object hands itself out", "private StreamEnds a; public StreamEnds() { a = this; }",
+                "private static class A { A(StreamEnds b) { } } private A a = new A(this);");
+    }
+
+    private static void lengths() throws IOException {
+        member("11: a method of more than sixty lines", "private void a() {" + "\n".repeat(60) + "}");
+        member("11: more than seven parameters",
+                "private void a(int b, int c, int d, int e, int f, int g, int h, int i) { }");
+        StringBuilder fields = new StringBuilder();
+        StringBuilder classes = new StringBuilder();
+        StringBuilder calls = new StringBuilder("private void a0() { }");
+        for (int k = 1; k <= 21; k++) {
+            fields.append("private int a").append(k).append(";");
+            classes.append("private static class A").append(k).append(" { }");
+            calls.append("private void a").append(k).append("() { a").append(k - 1).append("(); }");
+        }
+        member("11: more than twenty fields", fields.toString());
+        member("11: more than twelve classes", classes.toString());
+        member("11: calls go more than eight deep", calls.toString());
+    }
 }

@@ -19,6 +19,13 @@ final class Look {
         return look.seen.toString();
     }
 
+    /** The values of one endpoint, but for its state and its timers, which change when it becomes CLOSED. */
+    static String kept(StreamEnds x, int e) {
+        Look look = new Look(x);
+        look.end(e);
+        return look.seen.toString().replaceAll("end " + e + ", (0|11|12) .*\n", "");
+    }
+
     private void note(String name, int value) {
         seen.append(name).append(' ').append(value).append('\n');
     }

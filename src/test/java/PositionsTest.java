@@ -20,6 +20,8 @@ public final class PositionsTest {
         window();
         valuesAtTheStart();
         closedKeepsItsValues();
+        closedKeepsEachValue();
+        openedHasEachValueOfTheStart();
         Check.end("PositionsTest");
     }
 
@@ -317,5 +319,62 @@ public final class PositionsTest {
         Check.run(s + "the acknowledgment of FIN", States.RUNS[9], "arrive(1) = 1; arrive(1) = 1; end(0, 0) = 0; "
                 + "end(0, 1) = 2; end(0, 5) = 2;",
                 "end(0, 17) = 1; end(0, 13) = 1; end(0, 11) = 0; end(0, 12) = 0;");
+    }
+
+    private static StreamEnds played(String text, String... rows) {
+        StreamEnds x = new StreamEnds();
+        Check.write(x, text);
+        Check.same("lay() of " + text, x.lay() > 0 ? 1 : 0, 1);
+        Check.play("played", x, rows);
+        return x;
+    }
+
+    private static final String P1 = "p1;b20;";
+
+    private static void closedKeepsEachValue() {
+        for (int e = 0; e <= 1; e++) {
+            String quits = "quit(" + e + ") = 5;";
+            keeps("quit()", e, played(P1, States.RICH), quits);
+            keeps("an RST", 1 - e, played(P1, States.RICH, quits), "arrive(6) = 1;");
+        }
+        for (int state = 1; state <= 10; state++) {
+            keeps("quit() in state " + state, 0, played("", States.RUNS[state]), "quit(0) = " + state + ";");
+        }
+        keeps("leave() in LISTEN", 0, played("", States.RUNS[1]), "leave(0) = 0;");
+        keeps("leave() in SYN_SENT", 0, played("", States.FULL_PENDING[0]), "leave(0) = 0;");
+        keeps("the end of TIME_WAIT", 0, played("", States.RUNS[10]), "pass(10) = 10;");
+    }
+
+    private static void keeps(String how, int e, StreamEnds x, String becomesClosed) {
+        String title = "An endpoint that becomes CLOSED keeps all its values, except that its timer and its wait timer become 0: "
+                + how;
+        String before = Look.kept(x, e);
+        Check.play(title, x, becomesClosed, "end(" + e + ", 0) = 0; end(" + e + ", 11) = 0; end(" + e + ", 12) = 0;");
+        Check.same(title + ": all values", Look.kept(x, e).equals(before) ? 1 : 0, 1);
+    }
+
+    /** None of the values is that at the start when the endpoint becomes CLOSED, and each is when it is opened. */
+    private static void openedHasEachValueOfTheStart() {
+        StreamEnds rich = played(P1, States.RICH);
+        int[] atTheStart = {0, 0, 0, 1, 0, 0, 1, 21, 6, 0, 0, 0, 0, 0, 0, 0, -4, -4};
+        for (int what = 0; what <= 17; what++) {
+            boolean waits = what == 12;
+            Check.same("a value that is not that at the start: " + what, rich.end(0, what) != atTheStart[what] || waits ? 1 : 0, 1);
+            Check.same("a value that is not that at the start: " + what, rich.end(1, what) != atTheStart[what] || waits ? 1 : 0, 1);
+        }
+        Check.play("ranges and marks", rich, "span(0, -1, 0) = 1; span(1, -1, 0) = 1; known(0, 4) = 1; known(1, 4) = 1;");
+        for (int e = 0; e <= 1; e++) {
+            StreamEnds x = played(P1, States.RICH, "quit(" + e + ") = 5; open(" + e + ", 0) = 7;");
+            Check.play("The start is, for an endpoint, when it is opened", x, start(e, 1, 21), "known(" + e + ", 4) = 0; sample("
+                    + e + ", 1) = -4;");
+            Check.same("the other endpoint stays", Look.kept(x, 1 - e).equals(Look.kept(rich, 1 - e)) ? 1 : 0, 1);
+            x = played(P1, States.RICH, "lay() = 1;");
+            Check.play("The start is when the configuration is set up", x, start(e, 0, 21), "known(" + e + ", 4) = 0; sample("
+                    + e + ", 1) = -4;");
+            Check.play("opened again, it comes to the same state by the same calls", played(P1, States.RICH,
+                    "quit(0) = 5; quit(1) = 5; lose(7) = 7; lose(6) = 6; lose(5) = 5; lose(4) = 4; lose(3) = 3; lose(2) = 2; "
+                    + "lose(1) = 1; lose(0) = 0;"), OPEN, "say(" + e + ", 9) = 1; end(" + e + ", 1) = 1; end(" + e
+                    + ", 2) = 2; end(" + e + ", 8) = 3; letter(0, 7) = -4; letter(0, 6) = 0;");
+        }
     }
 }

@@ -39,6 +39,7 @@ public final class RefusedTest {
         runs.addAll(List.of(States.FULL_WIRE));
         runs.add(States.HOLDING);
         runs.add(States.FULL_TEXT);
+        runs.add(States.laid("p1;b20;", 1) + States.RICH);
         runs.add("write(98) = 1; write(55) = 2; write(59) = 3;" + States.HOLDING);
         return runs;
     }

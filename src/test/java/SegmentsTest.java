@@ -15,6 +15,7 @@ public final class SegmentsTest {
         wireOrder();
         lostAtOnce();
         lostAtOnceInEveryWay();
+        tellsOfNow();
         Check.end("SegmentsTest");
     }
 
@@ -179,5 +180,25 @@ public final class SegmentsTest {
         Check.runWith(stalled, "lost at once: a window update", OPEN, Check.says(0, 1, 2),
                 "arrive(0) = 1 x 4; say(0, 3) = 1; say(0, 4) = 2; say(1, 1) = 1;",
                 States.fill(1), "count(8) = 0; take(1) = 1; count(8) = 1; count(5) = 20; end(1, 7) = 4;");
+    }
+
+    /** A segment that is sent again is a new segment: it tells what its endpoint expects then. */
+    private static void tellsOfNow() {
+        String s = "a segment with ACK has as its ack number the number of expected, the window, and the lowest two ranges: ";
+        Check.run(s + "a retransmission", OPEN, "say(0, 1) = 1; say(1, 9) = 1; arrive(1) = 1; pass(3) = 3;",
+                "letter(0, 2) = 251; letter(0, 3) = 101; letter(0, 4) = 12; letter(2, 0) = 0; letter(2, 1) = 4; letter(2, 2) = 251; "
+                + "letter(2, 3) = 102; letter(2, 4) = 11; letter(2, 6) = 0;");
+        Check.run(s + "a retransmission when a range is held", OPEN, Check.says(1, 1, 5), "say(0, 7) = 1; arrive(1) = 1; "
+                + "pass(3) = 3; letter(1, 2) = 251; letter(1, 6) = 0; letter(1, 4) = 12;",
+                "letter(3, 0) = 0; letter(3, 2) = 251; letter(3, 3) = 101; letter(3, 4) = 12; letter(3, 6) = 1; "
+                        + "letter(3, 8) = 102; letter(3, 9) = 106;");
+        Check.run(s + "FIN", OPEN, Check.says(1, 1, 5), "arrive(1) = 1; leave(0) = 5; letter(2, 1) = 6; letter(2, 5) = 0; "
+                + "letter(2, 3) = 101; letter(2, 4) = 12; letter(2, 6) = 1; letter(2, 8) = 102; letter(2, 9) = 106;");
+        Check.run(s + "a SYN that is sent again", States.RUNS[3], "pass(6) = 6; letter(1, 0) = 0; letter(1, 1) = 5; "
+                + "letter(1, 3) = 101; letter(1, 4) = 12; letter(1, 6) = 0;");
+        Check.runWith("p1;b4;", s + "a probe, which is like a pure ACK", OPEN, Check.says(0, 1, 5), Check.says(1, 1, 3),
+                "arrive(5) = 1; arrive(0) = 1 x 4; count(5) = 7; arrive(3) = 1 x 4; end(0, 1) = 5; end(0, 2) = 5; lose(2) = 2;",
+                "pass(3) = 3; count(5) = 4; letter(2, 0) = 0; letter(2, 1) = 4; letter(2, 2) = 4; letter(2, 3) = 1; "
+                        + "letter(2, 4) = 4; letter(2, 5) = 0; letter(2, 6) = 1; letter(2, 8) = 2; letter(2, 9) = 3;");
     }
 }

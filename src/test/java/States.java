@@ -1,3 +1,5 @@
+import java.util.regex.Pattern;
+
 /** Runs of calls that many tests begin with: endpoint 0 in each of its states, and what is full. */
 final class States {
     /** A handshake: both endpoints are ESTABLISHED, and the wire is empty. */
@@ -59,15 +61,50 @@ final class States {
             + "end(0, 11) = 3; count(5) = 2;";
 
     /**
+     * Both endpoints are in FIN_WAIT_1 with the same values, none of which, but for the wait timer, is that at the
+     * start: each has noted the FIN of its peer, holds a range, and knows that its peer holds one; set up by p1;b20;.
+     */
+    static final String RICH = OPEN + "say(0, 1) = 1; say(1, 2) = 1; pass(2) = 2; arrive(0) = 1 x 4; take(0) = 2; take(1) = 1;"
+            + "say(0, 3) = 1; say(1, 4) = 1; cry(0) = 3; cry(1) = 3; pass(4) = 6; lose(0) = 3; lose(0) = 2; arrive(0) = 1 x 2;"
+            + "lose(0) = 1; lose(0) = 0; say(0, 5) = 2; say(0, 6) = 3; say(0, 7) = 4; say(1, 8) = 2; say(1, 9) = 3; "
+            + "say(1, 10) = 4; arrive(1) = 1; arrive(3) = 1; arrive(4) = 1 x 2; leave(0) = 5; leave(1) = 5; "
+            + "arrive(4) = 1 x 2; count(5) = 6;";
+
+    /**
      * 224 bytes have come to endpoint 1, and all of them are taken, by 465 calls: it expects position
      * 225 and has room up to 256. On the wire is what it tells of that.
      */
     static final String FAR = laid("p8;b32;", 8) + "open(1, 0) = 0; open(0, 1) = 1;" + batch().repeat(7);
 
+    /**
+     * An old segment of endpoint 1 is on the wire: 4 bytes from position 2 on, with the ack number of position 1 and
+     * the urgent number of position 5. Both endpoints are CLOSED.
+     */
+    static final String OLD_BYTES = OPEN + "say(1, 1) = 1; say(1, 2) = 2; say(1, 3) = 3; say(1, 4) = 4; cry(1) = 5; "
+            + "say(1, 5) = 5; letter(1, 2) = 102; letter(1, 3) = 251; letter(1, 5) = 4; letter(1, 7) = 105; lose(0) = 1; "
+            + "quit(0) = 4; quit(1) = 4; lose(2) = 2; lose(1) = 1;";
+
+    /** The same with an old pure ACK of endpoint 1: the number of position 2, and the ack number of position 3. */
+    static final String OLD_ACK = OPEN + "say(1, 9) = 1; lose(0) = 0; say(0, 1) = 1; arrive(0) = 1 x 2; say(0, 2) = 1; "
+            + "arrive(0) = 1; count(5) = 1; letter(0, 1) = 4; letter(0, 2) = 102; letter(0, 3) = 253; letter(0, 5) = 0; "
+            + "quit(0) = 4; quit(1) = 4; lose(2) = 2; lose(1) = 1;";
+
+    /** The same with an old pure ACK of endpoint 1: the number of position 2, and the ack number of position 1. */
+    static final String OLD_EMPTY = "open(1, 0) = 0; open(0, 1) = 1; twice(0) = 2; arrive(0) = 1; arrive(1) = 1 x 2; "
+            + "say(1, 9) = 1; lose(1) = 1; arrive(0) = 0; letter(0, 1) = 4; letter(0, 2) = 102; letter(0, 3) = 251; "
+            + "letter(0, 5) = 0; quit(0) = 4; quit(1) = 4; lose(2) = 2; lose(1) = 1;";
+
     /** The text has 200 characters and a fault. */
     static final String FULL_TEXT = "write(112) = 1;" + fullText();
 
     private States() {
+    }
+
+    private static final Pattern WIRE_NUMBER = Pattern.compile("(?<=arrive\\()\\d+|(?<=open\\(., .\\) = )\\d+");
+
+    /** The run with the index s, when one old segment is on the wire: it is before all segments of the run. */
+    static String behindOne(int s) {
+        return WIRE_NUMBER.matcher(RUNS[s]).replaceAll(number -> "" + (Integer.parseInt(number.group()) + 1));
     }
 
     private static String batch() {
