@@ -51,7 +51,7 @@ public final class EveryStateTest {
 
     private static void wrongAck(int state) {
         String title = state == SYN_RECEIVED
-                ? "In state SYN_RECEIVED, if q is not from 1 to sent, it is dropped with reason 5, and an RST in answer to it is sent"
+                ? "In state SYN_RECEIVED, if q is not from 1 to sent, it is dropped with reason 5, and an RST in answer is sent"
                 : "Otherwise, if q is greater than sent, it is dropped with reason 5, and a pure ACK is sent: " + state;
         StreamEnds x = played(title, States.OLD_ACK, States.behindOne(state));
         int size = x.count(5);

@@ -39,7 +39,8 @@ public final class LanguageTest {
     }
 
     private static void aSourceWithoutFault() throws IOException {
-        Language clean = new Language(source(inClass("private int a; private static final int B = 1; public int wipe() { return a + B; }")));
+        String text = inClass("private int a; private static final int B = 1; public int wipe() { return a + B; }");
+        Language clean = new Language(source(text));
         Check.same("a source without fault: " + clean.faults, clean.faults.size(), 0);
     }
 

@@ -171,7 +171,7 @@ public final class ReadmeTest {
         return new Thread(() -> {
             boolean right;
             try {
-                right = run(project, ".ci/run") == 0 == passes;
+                right = run(project, "sh .ci/run") == 0 == passes;
             } catch (IOException | InterruptedException e) {
                 right = false;
             }
