@@ -265,6 +265,14 @@ public final class ArrivingTest {
                 + "lose(2) = 2; lose(1) = 1;" + States.OPEN_AGAIN;
         Check.run(s + "all", OPEN, old, Check.says(0, 1, 5), "arrive(0) = 1; known(0, 1) = 0; known(0, 2) = 1; "
                 + "known(0, 5) = 1; known(0, 6) = 0;");
+        // Every place of the wire has had a segment with two ranges before.
+        String used = States.laid("p1;b20;", 1) + OPEN + Check.says(0, 1, 6) + "arrive(3) = 1; arrive(1) = 1; letter(5, 6) = 2; "
+                + "twice(5) = 7; lose(0) = 6; lose(0) = 5; lose(0) = 4; lose(0) = 3; lose(0) = 2; letter(0, 6) = 2;"
+                + States.fill(2) + "lay() = 1;";
+        Check.run(s + "none of a segment that is no more", used, OPEN, Check.says(0, 1, 6), "arrive(0) = 1; letter(5, 6) = 0; "
+                + "arrive(5) = 1; end(0, 1) = 2; known(0, 2) = 0; known(0, 3) = 0; known(0, 4) = 0; known(0, 5) = 0;");
+        Check.run(s + "none of a segment that is no more, but its own one", used, OPEN, Check.says(0, 1, 6), "arrive(4) = 1; "
+                + "letter(5, 6) = 1; arrive(5) = 1; known(0, 5) = 1; known(0, 2) = 0; known(0, 3) = 0; known(0, 4) = 0;");
         Check.run(s + "none is less than sent", OPEN, old, "say(0, 1) = 1; end(0, 2) = 2; arrive(0) = 1; known(0, 2) = 0; "
                 + "arrive(0) = 1; arrive(0) = 1;", "say(0, 2) = 1; end(0, 2) = 3;",
                 "known(0, 2) = 0;");
@@ -296,6 +304,8 @@ public final class ArrivingTest {
         String s = "If the endpoint has sent its FIN, and acked is greater than the position of the FIN: ";
         Check.run(s + "equal", OPEN, "say(0, 1) = 1; leave(0) = 5; arrive(0) = 1; arrive(1) = 1; end(0, 1) = 2; "
                 + "end(0, 0) = 5;");
+        Check.run(s + "less by 1", OPEN, "say(0, 1) = 1; leave(0) = 5; say(1, 2) = 1; arrive(2) = 1; cause(0) = -4; "
+                + "end(0, 1) = 1; end(0, 2) = 3; end(0, 0) = 5;");
         Check.run(s + "FIN_WAIT_1 becomes FIN_WAIT_2", OPEN, "say(0, 1) = 1; leave(0) = 5; arrive(0) = 1 x 2; "
                 + "arrive(0) = 1 x 2; end(0, 1) = 3; end(0, 0) = 6;");
         Check.run(s + "CLOSING becomes TIME_WAIT", States.RUNS[8], "arrive(0) = 1; end(0, 0) = 8; arrive(1) = 1; "
@@ -323,6 +333,9 @@ public final class ArrivingTest {
                 + "lose(0) = 0; pass(3) = 3; letter(0, 7) = 4; say(0, 4) = 4; cry(0) = 5; lose(1) = 1;",
                 "pass(6) = 9; letter(1, 7) = 5; letter(1, 2) = 1; arrive(1) = 1; end(1, 15) = 5; arrive(0) = 0; "
                         + "end(1, 15) = 5;");
+        Check.run(s + "less, in a segment that is accepted", States.OLD_BYTES, States.OPEN_AGAIN, Check.says(1, 1, 8),
+                "cry(1) = 9; pass(3) = 3; letter(3, 2) = 101; letter(3, 7) = 109; arrive(3) = 1; end(0, 15) = 9; end(0, 5) = 5; "
+                + "letter(0, 7) = 105; arrive(0) = 1; end(0, 5) = 6; end(0, 15) = 9;");
         Check.runWith("p1;b20;f0,0;", s + "less, in a segment that fits", OPEN, "say(0, 1) = 1; say(0, 2) = 2; cry(0) = 3; "
                 + "lose(1) = 1; lose(0) = 0; pass(3) = 3; letter(0, 7) = 3; say(0, 3) = 3;",
                 "cry(0) = 4; lose(1) = 1; quit(0) = 4; quit(1) = 4; lose(2) = 2; lose(1) = 1;", States.OPEN_AGAIN,

@@ -15,6 +15,7 @@ public final class ConfigurationTest {
         lastOneCounts();
         ranges();
         firstFault();
+        faultOfAShorterText();
         bufferIsTwiceTheSegment();
         aNewObject();
         layBeginsAgain();
@@ -182,6 +183,25 @@ public final class ConfigurationTest {
         Check.run("the fault of the text, as it is now", "fault() = -4; write(112) = 1; fault() = 0; write(52) = 2; "
                 + "fault() = 0;",
                 "write(59) = 3; fault() = -4; write(112) = 4; fault() = 3; wipe() = 4; fault() = -4;");
+    }
+
+    /** A shorter text begins as the one before it, which goes on behind its end. */
+    private static void faultOfAShorterText() {
+        String s = "the fault of the text, as it is now: no character of the one before it";
+        String[][] texts = {{"p4;b9;", "p4"}, {"p4;b9;", "p4;b9"}, {"f1,2;", "f1,"}, {"f1,2;", "f1"}, {"l17;", "l1"}};
+        for (String[] pair : texts) {
+            StreamEnds x = new StreamEnds();
+            Check.write(x, pair[0]);
+            Check.same(s + ": " + pair[0], x.fault(), NONE);
+            x.wipe();
+            Check.write(x, pair[1]);
+            int due = pair[1].lastIndexOf(';') + 1;
+            Check.same(s + ": " + pair[1], x.fault(), due);
+            Check.same(s + ": lay() of " + pair[1], x.lay(), NO);
+            x.write(';');
+            Check.same(s + ": " + pair[1] + ";", x.fault(), pair[1].startsWith("f") ? 0 : NONE);
+        }
+        Check.run(s + ": an empty text", "write(120) = 1; fault() = 0; wipe() = 1; fault() = -4; lay() = 4;");
     }
 
     private static void bufferIsTwiceTheSegment() {

@@ -195,6 +195,9 @@ public final class EndsBoundsTest {
                 + "take(1) = -4; end(1, 6) = 1;");
         Check.run("take: a held byte is not there yet", OPEN, Check.says(0, 1, 5), "arrive(1) = 1; take(1) = -4; "
                 + "arrive(0) = 1; take(1) = 1; take(1) = 2;");
+        Check.run("take: if this is less than expected, though fin is noted behind it", OPEN, Check.says(0, 1, 3),
+                "leave(0) = 5; arrive(1) = 1; end(1, 17) = 4; end(1, 5) = 1; take(1) = -4; end(1, 6) = 1; arrive(0) = 1; "
+                + "take(1) = 1; take(1) = 2; take(1) = 3; take(1) = -4;");
         Check.run("take: when it is CLOSED", States.USED[2], "take(0) = 2; take(0) = -4;");
         Check.run("take: in CLOSE_WAIT, LAST_ACK", OPEN, "say(1, 7) = 1; say(1, 8) = 2; leave(1) = 5; arrive(0) = 1 x 2; "
                 + "end(0, 0) = 7; take(0) = 7; leave(0) = 9; take(0) = 8; take(0) = -4;");

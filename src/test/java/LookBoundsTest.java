@@ -115,6 +115,11 @@ public final class LookBoundsTest {
                     + "span(1, ").append(i).append(", 1) = ").append(2 * i + 3).append("; ");
         }
         Check.runWith("p1;b32;", "span: in ascending order", many.toString(), "span(1, 10, 0) = -4; span(1, 10, 1) = -4;");
+        Check.runWith("p1;b2;", "span: how many ranges there are: none when the window is 0", OPEN, Check.says(0, 1, 2),
+                "arrive(0) = 1 x 2; end(1, 5) = 3; end(1, 7) = 3; span(1, -1, 0) = 0; span(1, 0, 0) = -4; span(1, 0, 1) = -4; "
+                + "letter(1, 4) = 0; letter(1, 6) = 0;");
+        Check.runWith("p1;b2;", "span: how many ranges there are: none when FIN is at limit - 1", OPEN, "say(0, 1) = 1; "
+                + "leave(0) = 5; arrive(0) = 1 x 2; end(1, 5) = 3; end(1, 7) = 3; span(1, -1, 1) = 0; span(1, 0, 0) = -4;");
         Check.runWith("p1;b20;", "span: up to limit", OPEN, Check.says(0, 1, 20), "arrive(19) = 1; span(1, -1, 0) = 1; "
                 + "span(1, 0, 0) = 20; span(1, 0, 1) = 21; end(1, 7) = 21;");
         Check.run("span: kept when CLOSED, none when it is opened", States.HOLDING, "quit(1) = 4; span(1, -1, 0) = 1; "

@@ -163,6 +163,16 @@ public final class SegmentsTest {
                 + "letter(19, 1) = 4;");
         Check.run("lost at once: a SYN", "open(0, 1) = 1;", States.fill(1), "open(1, 1) = 20; end(1, 0) = 2; end(1, 2) = 1; "
                 + "end(1, 16) = 0; end(1, 11) = 6; count(8) = 1;");
+        Check.run("lost at once: 21 SYNs, and then there is room for one", "open(0, 1) = 1;", States.fill(1),
+                "open(1, 1) = 20; quit(1) = 2;".repeat(21), "count(8) = 21; lose(0) = 19; open(1, 1) = 20; count(8) = 21; "
+                + "letter(19, 0) = 1; letter(19, 2) = 100;");
+        StringBuilder long1400 = new StringBuilder("open(0, 1) = 1;");
+        for (int ticks = 100; ticks <= 1400; ticks += 100) {
+            long1400.append("pass(100) = ").append(ticks).append(";");
+        }
+        Check.run("lost at once: retransmissions, and then there is room for a SYN", long1400.toString(),
+                "count(9) = 24; count(5) = 20; count(8) = 5; lose(0) = 19; open(1, 1) = 20; letter(19, 0) = 1; "
+                + "letter(19, 2) = 100;");
         Check.run("not lost: the answer takes the place of the segment that arrives", full,
                 "arrive(0) = 1; count(5) = 20; count(8) = 0; letter(19, 0) = 1;",
                 "letter(19, 3) = 252;");

@@ -62,6 +62,8 @@ public final class TimingTest {
     private static void greaterThanTimed() {
         String s = "When acked becomes greater than the timed position: ";
         String both = OPEN + "say(0, 1) = 1; say(0, 2) = 2; arrive(0) = 1; arrive(1) = 1; say(0, 3) = 2; end(0, 16) = 3;";
+        Check.runWith("p1;b20;", s + "less", OPEN, Check.says(0, 1, 2), "pass(3) = 3; end(0, 16) = -4; say(0, 3) = 3; "
+                + "end(0, 16) = 3; arrive(0) = 1; arrive(3) = 1; end(0, 1) = 2; end(0, 16) = 3; sample(0, 1) = -4;");
         Check.runWith("p1;b20;", s + "equal", both, "arrive(0) = 1; arrive(1) = 1; end(0, 1) = 3; end(0, 16) = 3; "
                 + "sample(0, 2) = -4;");
         Check.runWith("p1;b20;", s + "greater by 1", both, "arrive(0) = 1; arrive(1) = 1; arrive(0) = 1; arrive(0) = 1; "

@@ -250,6 +250,8 @@ public final class WireBoundsTest {
         Check.run(s + ": not FIN", OPEN, Check.says(0, 1, 3), "leave(0) = 5; calm(4) = 3; calm(1) = 6; calm(2) = 7;");
         Check.run(s + ": not what is held behind a gap", OPEN, Check.says(0, 1, 5), "arrive(1) = 1; lose(0) = 1; quit(0) = 4; "
                 + "calm(4) = 0; calm(2) = 0;");
+        Check.run(s + ": not what is held behind a gap, though fin is noted", OPEN, Check.says(0, 1, 3), "leave(0) = 5; "
+                + "arrive(1) = 1; lose(0) = 1; quit(0) = 5; calm(4) = 0; calm(2) = 0;");
         Check.run(s + ": in the states CLOSED and LISTEN", OPEN, "say(0, 1) = 1; arrive(0) = 1; quit(1) = 4; calm(4) = 1; "
                 + "open(1, 0) = 2; calm(4) = 0;");
     }
@@ -283,6 +285,8 @@ public final class WireBoundsTest {
         OPEN + Check.says(0, 1, 14) + "arrive(0) = 1 x 6; end(0, 1) = 10; end(0, 2) = 10; end(0, 3) = 13;",
         "open(1, 0) = 0; open(0, 1) = 1; arrive(0) = 1; pass(5) = 5; arrive(0) = 1 x 2;" + Check.says(0, 1, 30),
         OPEN + "pass(20) = 20;" + Check.says(0, 1, 30),
+        "open(0, 1) = 1; pass(18) = 18; lose(2) = 2; lose(1) = 1; open(1, 0) = 1; arrive(0) = 1 x 3; sample(0, 0) = -4;"
+                + Check.says(0, 1, 30) + "pass(2) = 20;",
         States.laid("p1;b20;", 1) + States.ALL_MARKED + "lose(1) = 1; lose(0) = 0;",
         States.laid("p8;b16;f255,3;l20;", 8) + OPEN + Check.says(0, 1, 30) + "leave(1) = 5; arrive(0) = 1; pass(1) = 1;"};
 
