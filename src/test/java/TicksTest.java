@@ -20,6 +20,14 @@ public final class TicksTest {
 
     private static void order() {
         Check.run("In a tick, the time increases by 1", "pass(1) = 1; pass(2) = 3; count(6) = 3;");
+        // What is sent in the tick in which the time becomes 3 is acknowledged when it is 5.
+        for (int e = 0; e <= 1; e++) {
+            String waits = "open(" + (1 - e) + ", 0) = 0; open(" + e + ", 1) = 1; arrive(0) = 1;" + Check.says(e, 1, 12)
+                    + "arrive(0) = 1 x 6; end(" + e + ", 1) = 9; count(5) = 0;";
+            Check.runWith("p4;b9;", "In a tick, the time increases by 1. Then, for endpoint 0, and after that for endpoint 1", waits,
+                    "pass(3) = 3; count(5) = 1; end(" + e + ", 16) = 9; pass(2) = 5; arrive(0) = 1 x 2; end(" + e
+                            + ", 1) = 10; sample(" + e + ", 0) = 2;");
+        }
         Check.run("for endpoint 0, and after that for endpoint 1", "open(1, 1) = 1; open(0, 1) = 2; pass(6) = 6; count(5) = 4; "
                 + "letter(2, 0) = 0; letter(3, 0) = 1;");
     }
@@ -56,13 +64,21 @@ public final class TicksTest {
                 "arrive(1) = 1; arrive(3) = 1; lose(1) = 2; lose(1) = 1; pass(3) = 3;",
                 "letter(1, 2) = 1; known(0, 2) = 1;");
         Check.runWith("p1;b20;f0,0;", s + "behind what is marked", OPEN, Check.says(0, 1, 4), OLD_KNOWLEDGE);
+        Check.runWith("p1;b20;f0,0;", s + "behind one that is marked", OPEN, Check.says(0, 1, 4), ONE_KNOWN);
     }
 
-    /** Byte 1 is acknowledged by an old segment, while 2 and 3 are known to be held, but 4 is not. */
-    private static final String OLD_KNOWLEDGE = "arrive(0) = 1; count(5) = 4; arrive(0) = 1 x 2; letter(1, 3) = 2; "
+    /** An old segment that acknowledges byte 1 is on the wire before those of the bytes 1 to 4. */
+    private static final String OLD_NEWS = "arrive(0) = 1; count(5) = 4; arrive(0) = 1 x 2; letter(1, 3) = 2; "
             + "lose(3) = 3; lose(2) = 2; lose(0) = 1;"
-            + "quit(0) = 4; quit(1) = 4; lose(2) = 2; lose(1) = 1;" + States.OPEN_AGAIN + Check.says(0, 1, 4)
-            + "count(5) = 5; arrive(2) = 1; arrive(2) = 1; count(5) = 5; arrive(4) = 1; known(0, 2) = 1; known(0, 3) = 1; "
+            + "quit(0) = 4; quit(1) = 4; lose(2) = 2; lose(1) = 1;" + States.OPEN_AGAIN + Check.says(0, 1, 4) + "count(5) = 5;";
+
+    /** Byte 1 is acknowledged by an old segment, while 2 is known to be held, but 3 is not. */
+    private static final String ONE_KNOWN = OLD_NEWS + "arrive(2) = 1; arrive(4) = 1; known(0, 2) = 1; known(0, 3) = 0; "
+            + "letter(0, 3) = 2; arrive(0) = 1; end(0, 1) = 2; known(0, 2) = 1; end(0, 2) = 5; pass(3) = 3; letter(3, 2) = 3; "
+            + "letter(3, 5) = 1; byteOf(3, 0) = 3;";
+
+    /** Byte 1 is acknowledged by an old segment, while 2 and 3 are known to be held, but 4 is not. */
+    private static final String OLD_KNOWLEDGE = OLD_NEWS + "arrive(2) = 1; arrive(2) = 1; count(5) = 5; arrive(4) = 1; known(0, 2) = 1; known(0, 3) = 1; "
                     + "known(0, 4) = 0; end(0, 1) = 1;"
             + "letter(0, 3) = 2; arrive(0) = 1; end(0, 1) = 2; known(0, 2) = 1; end(0, 2) = 5;"
             + "pass(3) = 3; letter(3, 2) = 4; letter(3, 5) = 1;";
